@@ -206,9 +206,23 @@ public final class NoonGun {
 
     public int week() {
         int misfit = weekMisfit();
-        int answer = misfit == NONE ? doWeek() : -1 - misfit;
+        if (misfit != NONE) {
+            text.clear();
+            return -1 - misfit;
+        }
+        past.note(town);
+        int done = 0;
+        boolean refused = false;
+        for (int p = 0; p < text.length && !refused; p += 1 + digitsOf(text.at(p))) {
+            refused = doAct(p) < 0;
+            done += refused ? 0 : 1;
+        }
+        if (done > 0) {
+            past.add();
+        }
         text.clear();
-        return answer;
+        told.tell(refused ? 1 : 0, town.clashes);
+        return done;
     }
 
     public int undo() {
@@ -814,7 +828,8 @@ public final class NoonGun {
     private int passDay() {
         int pairs = NONE;
         if (town.powder > 0) {
-            pairs = pairsOn(town.day);
+            planFor(ownRule, town.gun, town.day);
+            pairs = plan.pairs();
             town.powder--;
             town.clashes = Math.min(MOST_CLASHES, town.clashes + pairs);
             System.arraycopy(bang.minutes, 0, town.watches, 0, houseCount);
@@ -914,21 +929,6 @@ public final class NoonGun {
             default:
                 return 0;
         }
-    }
-
-    private int doWeek() {
-        past.note(town);
-        int done = 0;
-        boolean refused = false;
-        for (int p = 0; p < text.length && !refused; p += 1 + digitsOf(text.at(p))) {
-            refused = doAct(p) < 0;
-            done += refused ? 0 : 1;
-        }
-        if (done > 0) {
-            past.add();
-        }
-        told.tell(refused ? 1 : 0, town.clashes);
-        return done;
     }
 
     private int doAct(int p) {

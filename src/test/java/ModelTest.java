@@ -27,8 +27,10 @@ public final class ModelTest {
     private static void oneRun() {
         NoonGun gun = new NoonGun();
         Model model = new Model();
+        int fill = random.nextInt(5);
         for (int i = 0; i < CALLS; i++) {
-            int what = random.nextInt(52);
+            // At first HOUSES and DEEDS come, in some runs till there is no room for more.
+            int what = i < 2 * fill ? 2 + i % 2 : random.nextInt(52);
             String at = trail + i + " of kind " + what;
             call(gun, model, what, at);
             sameState(gun, model, at);
@@ -224,11 +226,11 @@ public final class ModelTest {
                 break;
             }
             case 2:
-                tell(g, m, random.nextInt(3) == 0 ? spoilt(houses()) : "", at);
+                tell(g, m, random.nextInt(m.count(2) == 0 ? 1 : 4) == 0 ? spoilt(houses()) : "", at);
                 Check.due(at, g.houses(), m.houses());
                 break;
             case 3:
-                tell(g, m, random.nextInt(3) == 0 ? spoilt(deeds(m.count(0))) : "", at);
+                tell(g, m, random.nextInt(m.count(2) == 0 ? 1 : 4) == 0 ? spoilt(deeds(m.count(0))) : "", at);
                 Check.due(at, g.deeds(), m.deeds());
                 break;
             case 4:
