@@ -62,6 +62,11 @@ public final class GuessesTest {
         gun.heard(1, 70);
         Check.due("37: by a rule of damp", gun.fits(), 10);
         Check.dueRow("37: by a rule of damp", gun, 7, 0);
+        Check.rule(gun, "d+e*9");
+        gun.forget();
+        gun.heard(2, 10);
+        Check.due("37: it is no echo", gun.fits(), 10);
+        Check.dueRow("37: it is no echo", gun, 0, 0);
     }
 
     private static void asks() {
@@ -78,6 +83,9 @@ public final class GuessesTest {
         Check.due("38: any", gun.asks(), 0);
         // DAMP * 11 and WIND: each pair has its own minute.
         Check.dueRow("38: any", gun, 1);
+        Check.rule(gun, "9-m");
+        Check.due("38: nothing is told by any", gun.asks(), 0);
+        Check.dueRow("38: nothing is told by any", gun, 100);
         Check.rule(gun, "x*w");
         Check.due("38: the one that tells the wind", gun.asks(), 2);
     }

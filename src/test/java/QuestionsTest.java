@@ -118,6 +118,11 @@ public final class QuestionsTest {
         gun.days(3);
         Check.due("25: at once", gun.quiet(), 0);
         Check.dueRow("25: at once", gun, 15);
+        Check.winds(gun, "00090000000000000000");
+        Check.rule(gun, "(n=3)*(w=9)*d*9");
+        gun.undo();
+        Check.due("25: on one alone", gun.quiet(), 3);
+        Check.dueRow("25: on one alone", gun, 1);
         Check.due("25: no deeds", emptyTown().quiet(), 0);
     }
 
