@@ -607,6 +607,8 @@ public final class NoonGun {
         if (n < 1 || n > MOST_DAYS) {
             return NONE;
         }
+        // It is a question: the town goes through them, and is then as it was.
+        past.note(town);
         drawn = seed;
         int sum = 0;
         int mute = 0;
@@ -626,6 +628,7 @@ public final class NoonGun {
             }
         }
         told.tell(town.powder, mute);
+        past.takeBack(town);
         return sum;
     }
 
@@ -1507,6 +1510,11 @@ public final class NoonGun {
             towns[next].copy(town);
         }
 
+        /** It is as was noted last, and that does not count. */
+        private void takeBack(Town town) {
+            town.copy(towns[next]);
+        }
+
         private void add() {
             next = (next + 1) % ROOMS;
             size = Math.min(MOST, size + 1);
@@ -1518,7 +1526,7 @@ public final class NoonGun {
             }
             next = (next + MOST) % ROOMS;
             size--;
-            town.copy(towns[next]);
+            takeBack(town);
             return true;
         }
 

@@ -11,6 +11,7 @@ public final class GuessesTest {
         law();
         rests();
         years();
+        yearsChangeNothing();
         keepAndAgain();
         count();
         row();
@@ -231,16 +232,96 @@ public final class GuessesTest {
         }
         Check.due("45: forty by seed 77", gun.years(77, 40), pairs);
         Check.dueRow("45: forty by seed 77", gun, like.count(3), like.count(5));
-        for (int what = 2; what <= 9; what++) {
-            Check.due("45: it is so then, count " + what, gun.count(what), like.count(what));
-        }
-        for (int what = 0; what <= 5; what++) {
-            Check.due("45: house, " + what, gun.house(1, what), like.house(1, what));
-        }
-        Check.due("45: no undo of it", gun.count(11), 0);
+        Check.due("45: likewise once more", gun.years(77, 40), pairs);
+        Check.dueRow("45: likewise once more", gun, like.count(3), like.count(5));
         gun = new NoonGun();
         Check.due("45: without houses", gun.years(-5, 60), 0);
-        Check.due("45: days went by", gun.count(2), gun.count(5) + 20 - gun.count(3));
+        Check.due("45: powder or mute", gun.row(0) == 0 || gun.row(1) == 0, true);
+        Check.due("45: without houses, days", gun.row(1) + 20 - gun.row(0), daysWithoutHouses(-5, 60));
+        Check.due("45: then lasts", gun.lasts(), 20);
+    }
+
+    /** Without HOUSES a 3 draws nothing more. */
+    private static int daysWithoutHouses(int seed, int n) {
+        int drawn = seed;
+        int days = 0;
+        for (int i = 0; i < n; i++) {
+            drawn = drawn * 1103515245 + 12345;
+            int what = (drawn >>> 16) % 4;
+            days += what < 2 ? 1 : 0;
+            for (int k = 0; what == 2 && k < 2; k++) {
+                drawn = drawn * 1103515245 + 12345;
+            }
+        }
+        return days;
+    }
+
+    /** Two towns with the same calls behind them, of which one alone was asked for years. */
+    private static void yearsChangeNothing() {
+        NoonGun gun = busyTown();
+        NoonGun like = busyTown();
+        int[] seeds = {0, 1, 77, -5, Integer.MIN_VALUE, Integer.MAX_VALUE};
+        for (int seed : seeds) {
+            gun.years(seed, 60);
+            like.rests(0);
+            sameTown("45: years by seed " + seed, gun, like);
+        }
+        for (int left = 15; left > 0; left--) {
+            gun.years(left, 60);
+            Check.due("45: undone behind years, " + left, gun.undo(), like.undo());
+            sameTown("45: undone behind years, " + left, gun, like);
+        }
+        Check.due("45: years are not undone", gun.undo(), -1);
+        Check.due("45: kept ahead of years", gun.again(1), like.again(1));
+        sameTown("45: kept ahead of years", gun, like);
+        gun.years(3, 60);
+        Check.due("45: years forget nothing kept", gun.again(0), true);
+        like.again(0);
+        sameTown("45: years forget nothing kept", gun, like);
+    }
+
+    /** Mute, with all of the past full, two towns kept, reports, and a text begun. */
+    private static NoonGun busyTown() {
+        NoonGun gun = Check.smallTown();
+        Check.winds(gun, "0374");
+        Check.damps(gun, "19264");
+        Check.rule(gun, "d*3-w+n+e*7");
+        gun.keep(0);
+        gun.heard(1, 5);
+        gun.heard(2, 60);
+        for (int i = 0; i < 6; i++) {
+            gun.days(4);
+            gun.hauls(i + 1, 9 - i);
+            gun.moves(i % 3, 9 - i, i);
+            gun.takes(i % 4, 9 - i);
+            gun.hill(i, 3);
+        }
+        gun.keep(1);
+        gun.buys(7);
+        Check.text(gun, "n3b");
+        return gun;
+    }
+
+    private static void sameTown(String at, NoonGun gun, NoonGun like) {
+        for (int what = 0; what <= 13; what++) {
+            // The numbers of the ROW are the years' own.
+            if (what != 12) {
+                Check.due(at + ", count " + what, gun.count(what), like.count(what));
+            }
+        }
+        for (int house = 0; house < 3; house++) {
+            for (int what = 0; what <= 5; what++) {
+                Check.due(at + ", house " + house + " " + what, gun.house(house, what), like.house(house, what));
+            }
+        }
+        for (int deed = 0; deed < 4; deed++) {
+            for (int what = 0; what <= 4; what++) {
+                Check.due(at + ", deed " + deed + " " + what, gun.deed(deed, what), like.deed(deed, what));
+            }
+        }
+        Check.due(at + ", lasts", gun.lasts(), like.lasts());
+        Check.due(at + ", lasts, pairs", gun.row(0), like.row(0));
+        Check.due(at + ", fits", gun.fits(), like.fits());
     }
 
     private static void keepAndAgain() {

@@ -985,6 +985,8 @@ final class Model {
         if (n < 1 || n > 60) {
             return -1;
         }
+        State before = now;
+        now = now.copy();
         drawn = seed & 0xFFFFFFFFL;
         int sum = 0;
         int mute = 0;
@@ -1011,6 +1013,7 @@ final class Model {
             }
         }
         row = new long[] {now.powder, mute};
+        now = before;
         return sum;
     }
 
