@@ -7,15 +7,32 @@ final class Check {
 
     private static int wrong = 0;
     private static int made = 0;
+    /** Which test is on: it stands ahead of what is printed. */
+    private static String within = "";
 
     private Check() {
+    }
+
+    static void within(String test) {
+        within = test.isEmpty() ? "" : test + ": ";
+    }
+
+    private static void tellWrong(String what) {
+        wrong++;
+        System.out.println(within + what);
     }
 
     static void due(String what, long got, long want) {
         made++;
         if (got != want) {
-            wrong++;
-            System.out.println(what + " answered " + got + ", due is " + want);
+            tellWrong(what + " answered " + got + ", due is " + want);
+        }
+    }
+
+    static void due(String what, String got, String want) {
+        made++;
+        if (!got.equals(want)) {
+            tellWrong(what + " is\n  " + got + "\ndue is\n  " + want);
         }
     }
 
@@ -27,12 +44,10 @@ final class Check {
         made++;
         try {
             long got = call.make();
-            wrong++;
-            System.out.println(what + " answered " + got + ", due is NoSuchElementException");
+            tellWrong(what + " answered " + got + ", due is NoSuchElementException");
         } catch (java.util.NoSuchElementException e) {
             if (e.getClass() != java.util.NoSuchElementException.class) {
-                wrong++;
-                System.out.println(what + " threw " + e);
+                tellWrong(what + " threw " + e);
             }
         }
     }

@@ -11,7 +11,6 @@ public final class GuessesTest {
         law();
         rests();
         years();
-        yearsChangeNothing();
         keepAndAgain();
         count();
         row();
@@ -254,74 +253,6 @@ public final class GuessesTest {
             }
         }
         return days;
-    }
-
-    /** Two towns with the same calls behind them, of which one alone was asked for years. */
-    private static void yearsChangeNothing() {
-        NoonGun gun = busyTown();
-        NoonGun like = busyTown();
-        int[] seeds = {0, 1, 77, -5, Integer.MIN_VALUE, Integer.MAX_VALUE};
-        for (int seed : seeds) {
-            gun.years(seed, 60);
-            like.rests(0);
-            sameTown("45: years by seed " + seed, gun, like);
-        }
-        for (int left = 15; left > 0; left--) {
-            gun.years(left, 60);
-            Check.due("45: undone behind years, " + left, gun.undo(), like.undo());
-            sameTown("45: undone behind years, " + left, gun, like);
-        }
-        Check.due("45: years are not undone", gun.undo(), -1);
-        Check.due("45: kept ahead of years", gun.again(1), like.again(1));
-        sameTown("45: kept ahead of years", gun, like);
-        gun.years(3, 60);
-        Check.due("45: years forget nothing kept", gun.again(0), true);
-        like.again(0);
-        sameTown("45: years forget nothing kept", gun, like);
-    }
-
-    /** Mute, with all of the past full, two towns kept, reports, and a text begun. */
-    private static NoonGun busyTown() {
-        NoonGun gun = Check.smallTown();
-        Check.winds(gun, "0374");
-        Check.damps(gun, "19264");
-        Check.rule(gun, "d*3-w+n+e*7");
-        gun.keep(0);
-        gun.heard(1, 5);
-        gun.heard(2, 60);
-        for (int i = 0; i < 6; i++) {
-            gun.days(4);
-            gun.hauls(i + 1, 9 - i);
-            gun.moves(i % 3, 9 - i, i);
-            gun.takes(i % 4, 9 - i);
-            gun.hill(i, 3);
-        }
-        gun.keep(1);
-        gun.buys(7);
-        Check.text(gun, "n3b");
-        return gun;
-    }
-
-    private static void sameTown(String at, NoonGun gun, NoonGun like) {
-        for (int what = 0; what <= 13; what++) {
-            // The numbers of the ROW are the years' own.
-            if (what != 12) {
-                Check.due(at + ", count " + what, gun.count(what), like.count(what));
-            }
-        }
-        for (int house = 0; house < 3; house++) {
-            for (int what = 0; what <= 5; what++) {
-                Check.due(at + ", house " + house + " " + what, gun.house(house, what), like.house(house, what));
-            }
-        }
-        for (int deed = 0; deed < 4; deed++) {
-            for (int what = 0; what <= 4; what++) {
-                Check.due(at + ", deed " + deed + " " + what, gun.deed(deed, what), like.deed(deed, what));
-            }
-        }
-        Check.due(at + ", lasts", gun.lasts(), like.lasts());
-        Check.due(at + ", lasts, pairs", gun.row(0), like.row(0));
-        Check.due(at + ", fits", gun.fits(), like.fits());
     }
 
     private static void keepAndAgain() {

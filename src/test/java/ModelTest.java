@@ -3,8 +3,13 @@ import java.util.Random;
 
 /** Long runs of drawn calls, in which the program answers as the model does, promises 1 to 49. */
 public final class ModelTest {
-    private static final int RUNS = 300;
-    private static final int CALLS = 400;
+    private static final int RUNS = 2500;
+    /** What an object answers is promised for so many calls. */
+    private static final int MOST_CALLS = 512;
+    /** So many the last look at all of a town takes at most. */
+    private static final int LOOK = 16 + 23 + 8 * 11;
+    /** So many one step takes at most, with a text of 80 signs and a look at what it counts. */
+    private static final int STEP = 23 + 16 + 2 * 23;
     private static final String[] RULES = {
         "", "d", "d*2-w/2", "d*3+m", "x*10+y", "d/2+(n=3)*9", "(d>4)*20+w", "99-d*5", "e*30+d", "-d+20",
         "m*10+w", "d*d/(w-4)", "((((d))))*2", "1", "0-5", "d<w", "999*999*999*d", "(n<4)*(d+w)-(x>y)*m",
@@ -14,6 +19,7 @@ public final class ModelTest {
 
     private static Random random;
     private static String trail;
+    private static int spent;
 
     public static void main(String[] args) {
         for (int run = 0; run < RUNS; run++) {
@@ -27,28 +33,48 @@ public final class ModelTest {
     private static void oneRun() {
         NoonGun gun = new NoonGun();
         Model model = new Model();
+        spent = 0;
         int fill = random.nextInt(5);
-        for (int i = 0; i < CALLS; i++) {
+        // Some runs look often at all of the town, others go further.
+        int seldom = 1 + random.nextInt(40);
+        for (int i = 0; spent + STEP + LOOK <= MOST_CALLS; i++) {
             // At first HOUSES and DEEDS come, in some runs till there is no room for more.
             int what = i < 2 * fill ? 2 + i % 2 : random.nextInt(52);
             String at = trail + i + " of kind " + what;
             call(gun, model, what, at);
-            sameState(gun, model, at);
+            spent += what < 10 || what == 16 ? 2 : 1;
+            if (random.nextInt(2) == 0) {
+                sameRow(gun, model, at);
+            }
+            if (random.nextInt(seldom) == 0) {
+                sameCounts(gun, model, at);
+            }
         }
+        sameCounts(gun, model, trail + "last");
+        sameTown(gun, model, trail + "last");
     }
 
-    private static void sameState(NoonGun gun, Model model, String at) {
+    private static void sameCounts(NoonGun gun, Model model, String at) {
         for (int what = -1; what <= 14; what++) {
             Check.due(at + ", then count " + what, gun.count(what), model.count(what));
         }
+        spent += 16;
+        sameRow(gun, model, at);
+    }
+
+    private static void sameRow(NoonGun gun, Model model, String at) {
         Check.dueRow(at, gun, model.row);
-        if (random.nextInt(4) > 0) {
-            return;
-        }
+        spent += 3 + 2 * model.row.length;
+    }
+
+    private static void sameTown(NoonGun gun, Model model, String at) {
         for (int i = 0; i < 8; i++) {
-            int what = random.nextInt(6);
-            sameHouse(gun, model, i, what, at);
-            sameDeed(gun, model, i, what, at);
+            for (int what = 0; what <= 5; what++) {
+                sameHouse(gun, model, i, what, at);
+            }
+            for (int what = 0; what <= 4; what++) {
+                sameDeed(gun, model, i, what, at);
+            }
         }
     }
 
@@ -104,6 +130,7 @@ public final class ModelTest {
             }
             Check.due(at + ", sign", gun.sign(v), model.sign(v));
         }
+        spent += (signs.length() + 3) / 4 + 1;
         int cut = random.nextInt(30) == 0 ? number(0, 80) : signs.length();
         Check.due(at + ", end", gun.end(cut), model.end(cut));
     }
