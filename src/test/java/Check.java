@@ -116,6 +116,24 @@ final class Check {
         return gun;
     }
 
+    static NoonGun town(String houses, String deeds, String rule) {
+        NoonGun gun = town(houses, deeds);
+        due("rule " + rule, rule(gun, rule), 0);
+        return gun;
+    }
+
+    /** No HOUSES, no DEEDS, but a ROW of two numbers. */
+    static NoonGun dayOldTown() {
+        NoonGun gun = new NoonGun();
+        gun.days(1);
+        return gun;
+    }
+
+    /** One HOUSE with eight DEEDS, of which all pairs, 28, CLASH on each DAY. */
+    static NoonGun crowd() {
+        return town("00", "09a;09a;09a;09a;09a;09a;09a;09a");
+    }
+
     /** Three HOUSES that hear the gun at 2, 4, 20; DEEDS on 2-4, 4-5, 20-24, 20-23; 0 and 1 clash. */
     static NoonGun smallTown() {
         return town("10;02;55", "03a;12ab;25b;24c");

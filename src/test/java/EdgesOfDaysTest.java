@@ -9,17 +9,6 @@ public final class EdgesOfDaysTest {
         Edges.run(EdgesOfDaysTest.class, 12, 19);
     }
 
-    /** One HOUSE with eight DEEDS, of which all pairs, 28, CLASH on each DAY. */
-    private static NoonGun crowd() {
-        return Check.town("00", "09a;09a;09a;09a;09a;09a;09a;09a");
-    }
-
-    private static NoonGun full() {
-        NoonGun gun = Twins.fullTown();
-        gun.end(0);
-        return gun;
-    }
-
     // ---- 12: days
 
     private static void promise12AnotherN() {
@@ -39,8 +28,14 @@ public final class EdgesOfDaysTest {
         Check.due("it is done", gun.count(11), undone + 1);
     }
 
+    private static void promise12NoDaysChangeNothing() {
+        // A hill that stays where it is can be undone likewise.
+        Twins.Town ahead = () -> Twins.called(Check::crowd, gun -> gun.hill(9, 9));
+        Twins.sameButRow("days 0", ahead, () -> Twins.called(Check::crowd, gun -> gun.days(0)));
+    }
+
     private static void promise12OneDay() {
-        NoonGun gun = crowd();
+        NoonGun gun = Check.crowd();
         Check.due("powder", gun.days(1), 19);
         Check.dueRow("one", gun, 28, 0);
         Check.due("day", gun.count(2), 1);
@@ -48,7 +43,7 @@ public final class EdgesOfDaysTest {
     }
 
     private static void promise12SixtyDays() {
-        NoonGun gun = crowd();
+        NoonGun gun = Check.crowd();
         gun.buys(79);
         Check.due("powder", gun.days(60), 39);
         Check.dueRow("sixty", gun, 60 * 28, 0);
@@ -56,7 +51,7 @@ public final class EdgesOfDaysTest {
     }
 
     private static void promise12TheLastPowder() {
-        NoonGun gun = crowd();
+        NoonGun gun = Check.crowd();
         Check.due("all of it", gun.days(20), 0);
         Check.dueRow("none mute", gun, 560, 0);
         Check.due("mute", gun.count(5), 0);
@@ -67,7 +62,7 @@ public final class EdgesOfDaysTest {
     }
 
     private static void promise12WithoutPowderNothingBegins() {
-        NoonGun gun = crowd();
+        NoonGun gun = Check.crowd();
         gun.days(20);
         gun.moves(0, 5, 5);
         Check.due("powder", gun.days(3), 0);
@@ -91,7 +86,7 @@ public final class EdgesOfDaysTest {
     }
 
     private static void promise12ClashesStayAt9999() {
-        NoonGun gun = crowd();
+        NoonGun gun = Check.crowd();
         for (int i = 0; i < 6; i++) {
             gun.buys(99 - gun.count(3));
             gun.days(60);
@@ -235,7 +230,8 @@ public final class EdgesOfDaysTest {
     private static void promise15ItIsThere() {
         for (int house = 0; house < 8; house++) {
             int h = house;
-            Twins.refusedIn(Twins::fullTown, "where " + h + " is", -2, gun -> gun.moves(h, gun.house(h, 0), gun.house(h, 1)));
+            Twins.Call toItself = gun -> gun.moves(h, gun.house(h, 0), gun.house(h, 1));
+            Twins.refusedIn(Twins::fullTown, "where " + h + " is", -2, toItself);
         }
     }
 
@@ -287,7 +283,7 @@ public final class EdgesOfDaysTest {
     }
 
     private static void promise16TheLeastAndTheMost() {
-        NoonGun gun = crowd();
+        NoonGun gun = Check.crowd();
         Check.due("1", gun.takes(0, 1), 9);
         Check.due("9", gun.takes(0, 9), 1);
         Check.due("the last deed", gun.takes(7, 8), 9);
@@ -322,6 +318,17 @@ public final class EdgesOfDaysTest {
         Check.due("by one", gun.hill(0, 8), 1);
     }
 
+    private static void promise17NothingElseMovesTheHill() {
+        NoonGun gun = Check.town("55;12", "01a", "e*d");
+        gun.hill(8, 7);
+        Twins.Call[] acts = {g -> g.days(2), g -> g.buys(3), g -> g.takes(0, 9), g -> Check.week(g, "n1b1l02"),
+            g -> g.moves(1, 3, 4), g -> g.keep(0) ? 1 : 0, g -> g.undo(), g -> g.again(0) ? 1 : 0};
+        for (int i = 0; i < acts.length; i++) {
+            acts[i].make(gun);
+            Check.due("echo behind act " + i, gun.house(0, 4), 15 + 5);
+        }
+    }
+
     // ---- 18: week
 
     private static void refusedWeek(String text, int p) {
@@ -329,31 +336,17 @@ public final class EdgesOfDaysTest {
     }
 
     private static String standing(String ahead) {
-        StringBuilder standing = new StringBuilder();
-        for (char sign = 0; sign < 256; sign++) {
-            NoonGun gun = new NoonGun();
-            Check.text(gun, ahead + sign + "!");
-            if (gun.week() != -1 - ahead.length()) {
-                standing.append(sign);
-            }
-        }
-        return standing.toString();
+        return Twins.standing(ahead, NoonGun::new, NoonGun::week);
     }
 
     private static void promise18AnEmptyTextIsNothing() {
         for (Twins.Town town : Twins.TOWNS) {
-            Twins.Town ahead = () -> withoutText(town);
+            Twins.Town ahead = () -> Twins.told(town, "");
             Twins.sameButRow("empty", ahead, () -> Twins.called(ahead, gun -> gun.week()));
             NoonGun gun = ahead.make();
             Check.due("empty", gun.week(), 0);
             Check.dueRow("empty", gun, 0, gun.count(4));
         }
-    }
-
-    private static NoonGun withoutText(Twins.Town town) {
-        NoonGun gun = town.make();
-        gun.end(0);
-        return gun;
     }
 
     private static void promise18EndsTooEarly() {
@@ -463,7 +456,7 @@ public final class EdgesOfDaysTest {
     }
 
     private static void promise18ClashesThenStayAt9999() {
-        NoonGun gun = crowd();
+        NoonGun gun = Check.crowd();
         for (int i = 0; i < 5; i++) {
             gun.buys(60 - (i == 0 ? 20 : 0));
             gun.days(60);
@@ -629,7 +622,7 @@ public final class EdgesOfDaysTest {
     }
 
     private static void promise19MuteAndClashesAtTheirMost() {
-        NoonGun gun = crowd();
+        NoonGun gun = Check.crowd();
         for (int i = 0; i < 6; i++) {
             gun.buys(99 - gun.count(3));
             gun.days(60);
@@ -647,18 +640,29 @@ public final class EdgesOfDaysTest {
         Check.due("clashes still", gun.count(4), 9999);
     }
 
+    private static void promise19EachActUndoneAlone() {
+        Twins.Call[] acts = {gun -> gun.days(3), gun -> gun.buys(5), gun -> gun.hauls(9, 8), gun -> gun.moves(2, 0, 9),
+            gun -> gun.takes(3, 9), gun -> gun.hill(0, 0), gun -> Check.week(gun, "n1b1g11m011l01")};
+        for (int i = 0; i < acts.length; i++) {
+            Twins.Call act = acts[i];
+            Twins.sameButRow("act " + i, EdgesOfDaysTest::mid, () -> doneAndUndone(act));
+        }
+    }
+
+    private static NoonGun doneAndUndone(Twins.Call act) {
+        NoonGun gun = mid();
+        int many = gun.count(11);
+        Check.due("done", act.make(gun) >= 0, true);
+        Check.due("undone", gun.undo(), many);
+        return gun;
+    }
+
     private static void promise19WhatItBringsBack() {
-        NoonGun gun = Twins.midTown();
-        gun.end(0);
-        Twins.Town ahead = EdgesOfDaysTest::mid;
-        Twins.Town behind = EdgesOfDaysTest::midUndone;
-        Twins.sameButRow("a week undone", ahead, behind);
+        Twins.sameButRow("a week undone", EdgesOfDaysTest::mid, EdgesOfDaysTest::midUndone);
     }
 
     private static NoonGun mid() {
-        NoonGun gun = Twins.midTown();
-        gun.end(0);
-        return gun;
+        return Twins.told(Twins::midTown, "");
     }
 
     private static NoonGun midUndone() {
@@ -707,8 +711,7 @@ public final class EdgesOfDaysTest {
     }
 
     private static void promise19HousesForgetThem() {
-        NoonGun gun = Twins.midTown();
-        gun.end(0);
+        NoonGun gun = mid();
         Check.due("some", gun.count(11) > 0, true);
         Check.houses(gun, "00");
         Check.due("none", gun.count(11), 0);
@@ -718,8 +721,7 @@ public final class EdgesOfDaysTest {
     }
 
     private static void promise19DeedsForgetThem() {
-        NoonGun gun = Twins.midTown();
-        gun.end(0);
+        NoonGun gun = mid();
         Check.deeds(gun, "01a");
         Check.due("none", gun.count(11), 0);
         Check.due("undo", gun.undo(), -1);
@@ -739,7 +741,7 @@ public final class EdgesOfDaysTest {
     private static void promise19RefusedOnesForgetNothing() {
         String[] texts = {"x", "1", "11;", "11;2", "000"};
         for (String text : texts) {
-            NoonGun gun = full();
+            NoonGun gun = Twins.told(Twins::fullTown, "");
             int many = gun.count(11);
             Check.due("all fifteen", many, 15);
             Check.due("houses", Check.houses(gun, text) < 0, true);
@@ -751,7 +753,7 @@ public final class EdgesOfDaysTest {
     }
 
     private static void promise19EmptyTextsForgetNothing() {
-        NoonGun gun = full();
+        NoonGun gun = Twins.told(Twins::fullTown, "");
         Check.houses(gun, "");
         Check.deeds(gun, "");
         Check.due("none is forgotten", gun.count(11), 15);

@@ -7,19 +7,6 @@ public final class EdgesOfGuessesTest {
         Edges.run(EdgesOfGuessesTest.class, 35, 49);
     }
 
-    private static NoonGun withRule(String houses, String deeds, String rule) {
-        NoonGun gun = Check.town(houses, deeds);
-        Check.due("rule " + rule, Check.rule(gun, rule), 0);
-        return gun;
-    }
-
-    /** A new object whose ROW has two numbers. */
-    private static NoonGun emptyWithRow() {
-        NoonGun gun = new NoonGun();
-        gun.days(1);
-        return gun;
-    }
-
     // ---- 35: heard
 
     private static void promise35NoneSuch() {
@@ -43,7 +30,7 @@ public final class EdgesOfGuessesTest {
     }
 
     private static void promise35TheFirstAndTheLastHouse() {
-        NoonGun gun = withRule("00;11;22;33;44;55;66;77", "", "d");
+        NoonGun gun = Check.town("00;11;22;33;44;55;66;77", "", "d");
         Check.due("the last", gun.heard(7, 14), 1);
         Check.due("it fits", gun.fits(), 10);
         Check.due("the first", gun.heard(0, 0), 2);
@@ -99,15 +86,21 @@ public final class EdgesOfGuessesTest {
     }
 
     private static void promise36NothingElseIsForgotten() {
-        Twins.sameButRow("forget", Twins::fullTown, EdgesOfGuessesTest::heardAgain);
+        Twins.unchanged("forget", EdgesOfGuessesTest::forgotten, EdgesOfGuessesTest::heardAndForgotten);
     }
 
-    private static NoonGun heardAgain() {
-        NoonGun gun = Twins.fullTown();
+    private static NoonGun forgotten() {
+        NoonGun gun = Twins.midTown();
         gun.forget();
-        for (int i = 0; i < 10; i++) {
-            gun.heard(i % 8, gun.house(i % 8, 3));
-        }
+        return gun;
+    }
+
+    private static NoonGun heardAndForgotten() {
+        NoonGun gun = forgotten();
+        gun.heard(0, 3);
+        gun.heard(2, 7);
+        gun.heard(0, 199);
+        gun.forget();
         return gun;
     }
 
@@ -128,21 +121,21 @@ public final class EdgesOfGuessesTest {
     }
 
     private static void promise37TheLastPairAlone() {
-        NoonGun gun = withRule("00", "", "m*10+w");
+        NoonGun gun = Check.town("00", "", "m*10+w");
         gun.heard(0, 9 + 99);
         Check.due("one", gun.fits(), 1);
         Check.dueRow("9, 9", gun, 9, 9);
     }
 
     private static void promise37TheFirstPairAlone() {
-        NoonGun gun = withRule("00", "", "m*10+w");
+        NoonGun gun = Check.town("00", "", "m*10+w");
         gun.heard(0, 0);
         Check.due("one", gun.fits(), 1);
         Check.dueRow("0, 0", gun, 0, 0);
     }
 
     private static void promise37TheLatestMinute() {
-        NoonGun gun = withRule("00", "", "999");
+        NoonGun gun = Check.town("00", "", "999");
         gun.heard(0, 108);
         Check.due("by damp 9", gun.fits(), 10);
         Check.dueRow("by damp 9", gun, 9, 0);
@@ -151,8 +144,15 @@ public final class EdgesOfGuessesTest {
         Check.due("never", gun.fits(), 0);
     }
 
+    private static void promise37ItIsNoEcho() {
+        NoonGun gun = Check.town("00", "", "e");
+        gun.heard(0, 0);
+        Check.due("damp 0", gun.fits(), 10);
+        Check.dueRow("damp 0", gun, 0, 0);
+    }
+
     private static void promise37TheSameHouseAtTwoMinutes() {
-        NoonGun gun = withRule("00", "", "d");
+        NoonGun gun = Check.town("00", "", "d");
         gun.heard(0, 3);
         Check.due("one minute", gun.fits(), 10);
         gun.heard(0, 4);
@@ -160,7 +160,7 @@ public final class EdgesOfGuessesTest {
     }
 
     private static void promise37AsItIsWhenAsked() {
-        NoonGun gun = withRule("05", "", "d+n");
+        NoonGun gun = Check.town("05", "", "d+n");
         gun.heard(0, 5);
         Check.due("damp 0", gun.fits(), 10);
         gun.days(1);
@@ -185,47 +185,41 @@ public final class EdgesOfGuessesTest {
     // ---- 38: asks
 
     private static void promise38NoHouses() {
-        Twins.refusedIn(EdgesOfGuessesTest::emptyWithRow, "no houses", -2, gun -> gun.asks());
+        Twins.refusedIn(() -> Twins.lived(new NoonGun()), "no houses", -2, gun -> gun.asks());
     }
 
     private static void promise38NoneFits() {
-        Twins.refusedIn(EdgesOfGuessesTest::impossible, "none fits", -2, gun -> gun.asks());
-    }
-
-    private static NoonGun impossible() {
-        NoonGun gun = Check.smallTown();
-        gun.days(1);
-        gun.heard(0, 199);
-        return gun;
+        // In a town that lived, the first HOUSE tells of minute 199.
+        Twins.refusedIn(() -> Twins.lived(Check.smallTown()), "none fits", -2, gun -> gun.asks());
     }
 
     private static void promise38NothingHeard() {
-        NoonGun gun = withRule("00", "", "0");
+        NoonGun gun = Check.town("00", "", "0");
         Check.due("the one", gun.asks(), 0);
         Check.dueRow("ten of each damp", gun, 10);
     }
 
     private static void promise38OfEqualOnesTheFirst() {
-        NoonGun gun = withRule("00;11;22;33;44;55;66;77", "", "d");
+        NoonGun gun = Check.town("00;11;22;33;44;55;66;77", "", "d");
         Check.due("the first", gun.asks(), 0);
         Check.dueRow("the first", gun, 10);
     }
 
     private static void promise38TheLastHouse() {
-        NoonGun gun = withRule("00;11;22;33;44;55;66;77", "", "(x=7)*(m*10+w)");
+        NoonGun gun = Check.town("00;11;22;33;44;55;66;77", "", "(x=7)*(m*10+w)");
         Check.due("the last", gun.asks(), 7);
         Check.dueRow("one is left", gun, 1);
     }
 
     private static void promise38OneFits() {
-        NoonGun gun = withRule("00;11", "", "(x=0)*(m*10+w)");
+        NoonGun gun = Check.town("00;11", "", "(x=0)*(m*10+w)");
         gun.heard(0, 5 + 57);
         Check.due("the first", gun.asks(), 0);
         Check.dueRow("one is left", gun, 1);
     }
 
     private static void promise38NoHouseTellsMore() {
-        NoonGun gun = withRule("00;11", "", "9-m");
+        NoonGun gun = Check.town("00;11", "", "9-m");
         Check.due("the first", gun.asks(), 0);
         Check.dueRow("all are left", gun, 100);
     }
@@ -243,7 +237,7 @@ public final class EdgesOfGuessesTest {
     }
 
     private static void promise39NoHouses() {
-        NoonGun gun = emptyWithRow();
+        NoonGun gun = Check.dayOldTown();
         Check.due("none", gun.menders(0), 0);
         Check.dueRow("none", gun, 0);
         Check.due("none of 18", gun.menders(18), 0);
@@ -291,18 +285,12 @@ public final class EdgesOfGuessesTest {
     // ---- 40: apart
 
     private static void promise40FewerThanTwo() {
-        Twins.refusedIn(EdgesOfGuessesTest::emptyWithRow, "none", -2, gun -> gun.apart());
-        Twins.refusedIn(EdgesOfGuessesTest::oneHouse, "one", -2, gun -> gun.apart());
-    }
-
-    private static NoonGun oneHouse() {
-        NoonGun gun = Check.town("55", "01a");
-        gun.days(1);
-        return gun;
+        Twins.refusedIn(() -> Twins.lived(new NoonGun()), "none", -2, gun -> gun.apart());
+        Twins.refusedIn(() -> Twins.lived(Check.town("55", "01a")), "one", -2, gun -> gun.apart());
     }
 
     private static void promise40Two() {
-        NoonGun gun = withRule("05;01", "", "d");
+        NoonGun gun = Check.town("05;01", "", "d");
         Check.due("alike", gun.apart(), 0);
         Check.dueRow("both", gun, 0, 1);
         gun.days(1);
@@ -317,21 +305,21 @@ public final class EdgesOfGuessesTest {
     }
 
     private static void promise40OfLikeOnesTheLeastRow() {
-        NoonGun gun = withRule("03;00;05;00;05", "", "d");
+        NoonGun gun = Check.town("03;00;05;00;05", "", "d");
         gun.days(1);
         Check.due("5", gun.apart(), 5);
         Check.dueRow("the least row", gun, 1, 2);
     }
 
     private static void promise40TheLastTwo() {
-        NoonGun gun = withRule("05;05;05;05;05;05;00;09", "", "d");
+        NoonGun gun = Check.town("05;05;05;05;05;05;00;09", "", "d");
         gun.days(1);
         Check.due("9", gun.apart(), 9);
         Check.dueRow("the last two", gun, 6, 7);
     }
 
     private static void promise40TheMost() {
-        NoonGun gun = withRule("00;09", "", "d*99");
+        NoonGun gun = Check.town("00;09", "", "d*99");
         Check.damps(gun, "9");
         gun.days(1);
         Check.due("99", gun.apart(), 99);
@@ -406,6 +394,15 @@ public final class EdgesOfGuessesTest {
         misfires(15, 1, 1, 205891132094649L, 1000000000000000L);
     }
 
+    private static void promise41AskedAnew() {
+        NoonGun gun = new NoonGun();
+        gun.misfires(15, 15, 9);
+        gun.misfires(1, 15, 3);
+        Check.dueRow("one shot behind fifteen", gun, 1, 1);
+        gun.misfires(2, 2, 9);
+        Check.dueRow("two shots", gun, 19, 100);
+    }
+
     private static void promise41ItChangesNothing() {
         Twins.asksAlone("misfires", gun -> gun.misfires(15, 3, 4));
     }
@@ -430,13 +427,13 @@ public final class EdgesOfGuessesTest {
     }
 
     private static void dueLost(int a, int b) {
-        NoonGun gun = emptyWithRow();
+        NoonGun gun = Check.dayOldTown();
         Check.due("lost " + a + ", " + b, gun.forts(a, b), 0);
         Check.dueRow("nothing without", gun);
     }
 
     private static void dueWon(int a, int b, int first, int second) {
-        NoonGun gun = emptyWithRow();
+        NoonGun gun = Check.dayOldTown();
         Check.due("won " + a + ", " + b, gun.forts(a, b), 1);
         Check.dueRow("won " + a + ", " + b, gun, first, second);
     }
@@ -487,7 +484,8 @@ public final class EdgesOfGuessesTest {
     }
 
     private static void promise42ItChangesNothing() {
-        Twins.asksAlone("forts", gun -> gun.forts(20, 20));
+        Twins.asksAlone("forts won", gun -> gun.forts(7, 20));
+        Twins.asksAlone("forts lost", gun -> gun.forts(2, 2));
     }
 
     // ---- 43: law
@@ -521,7 +519,7 @@ public final class EdgesOfGuessesTest {
     }
 
     private static void promise43AnEmptyTextIsNone() {
-        NoonGun gun = withRule("10;02;55", "03a;12ab;25b;24c", "99");
+        NoonGun gun = Check.town("10;02;55", "03a;12ab;25b;24c", "99");
         Check.due("empty", Check.law(gun, ""), -1);
         Check.dueRow("by the first rule", gun, 1, 2, 2, 4, 20);
         Check.due("the rule stays", gun.house(0, 3), 99);
@@ -534,14 +532,14 @@ public final class EdgesOfGuessesTest {
     }
 
     private static void promise43EightHouses() {
-        NoonGun gun = withRule("00;01;02;03;04;05;06;07", "", "0");
+        NoonGun gun = Check.town("00;01;02;03;04;05;06;07", "", "0");
         Check.damps(gun, "9");
         Check.due("none clash", Check.law(gun, "y*99"), 0);
         Check.dueRow("eight", gun, 0, 0, 9, 108, 108, 108, 108, 108, 108, 108);
     }
 
     private static void promise43BelowZero() {
-        NoonGun gun = withRule("00;01", "09a;09a;09a;09a;19a;19a;19a;19a", "0");
+        NoonGun gun = Check.town("00;01", "09a;09a;09a;09a;19a;19a;19a;19a", "0");
         Check.due("16 fewer", Check.law(gun, "y*9"), -16);
         Check.dueRow("16 fewer", gun, 12, 28, 0, 9);
         Check.rule(gun, "y*9");
@@ -558,15 +556,9 @@ public final class EdgesOfGuessesTest {
 
     private static void promise43ItChangesNothing() {
         for (Twins.Town town : Twins.TOWNS) {
-            Twins.sameButRow("law", () -> withText(town, ""), () -> Twins.called(() -> withText(town, "d+7"), gun -> gun.law()));
+            Twins.Town ahead = () -> Twins.told(town, "d+7");
+            Twins.sameButRow("law", () -> Twins.told(town, ""), () -> Twins.called(ahead, NoonGun::law));
         }
-    }
-
-    private static NoonGun withText(Twins.Town town, String text) {
-        NoonGun gun = town.make();
-        gun.end(0);
-        Check.text(gun, text);
-        return gun;
     }
 
     // ---- 44: rests
@@ -701,7 +693,7 @@ public final class EdgesOfGuessesTest {
     }
 
     private static NoonGun mostClashes() {
-        NoonGun gun = Check.town("00", "09a;09a;09a;09a;09a;09a;09a;09a");
+        NoonGun gun = Check.crowd();
         for (int i = 0; i < 6; i++) {
             gun.buys(99 - gun.count(3));
             gun.days(60);
@@ -796,7 +788,8 @@ public final class EdgesOfGuessesTest {
     }
 
     private static void promise46ItChangesNothingElse() {
-        Twins.unchanged("kept under 2 anew", EdgesOfGuessesTest::keptNow, () -> Twins.called(EdgesOfGuessesTest::keptNow, gun -> gun.keep(2) ? 1 : 0));
+        Twins.Town town = EdgesOfGuessesTest::keptNow;
+        Twins.unchanged("kept under 2 anew", town, () -> Twins.called(town, gun -> gun.keep(2) ? 1 : 0));
     }
 
     private static NoonGun keptNow() {
@@ -898,6 +891,14 @@ public final class EdgesOfGuessesTest {
         Check.due("not 0", gun.again(0), false);
     }
 
+    private static void promise47OnceMoreChangesNothing() {
+        for (int i = 0; i <= 2; i++) {
+            int k = i;
+            Twins.Town town = () -> Twins.called(Twins::fullTown, gun -> gun.again(k) ? 1 : 0);
+            Twins.unchanged("again " + k, town, () -> Twins.called(town, gun -> gun.again(k) ? 1 : 0));
+        }
+    }
+
     private static void promise47AsOftenAsAsked() {
         NoonGun gun = new NoonGun();
         gun.keep(0);
@@ -982,7 +983,7 @@ public final class EdgesOfGuessesTest {
     }
 
     private static void promise49NothingToldLast() {
-        NoonGun gun = emptyWithRow();
+        NoonGun gun = Check.dayOldTown();
         Check.due("told", gun.row(1), 0);
         gun.order();
         Check.dueNoSuch("row 0", () -> gun.row(0));
@@ -1020,5 +1021,36 @@ public final class EdgesOfGuessesTest {
         Check.week(gun, "z");
         Check.law(gun, "z");
         Check.dueRow("as it was", gun, 0, 1, 2, 3);
+    }
+
+    private static void promise49ItChangesNothing() {
+        Twins.Town[] towns = {Twins::midTown, Twins::fullTown};
+        for (Twins.Town town : towns) {
+            Twins.unchanged("row", town, () -> Twins.called(town, gun -> gun.row(0)));
+        }
+    }
+
+    /** THE TEXT stays, too, by all but those that read it. */
+    private static void promise49CallsThatTellNoneLeaveIt() {
+        Twins.Call[] calls = {gun -> gun.sheet(0, 2, 5, 1), gun -> gun.buys(1), gun -> gun.hauls(9, 2),
+            gun -> gun.moves(1, 4, 4), gun -> gun.takes(1, 9), gun -> gun.hill(0, 3), gun -> gun.undo(),
+            gun -> gun.heard(0, 9), gun -> gun.forget(), gun -> gun.keep(0) ? 1 : 0, gun -> gun.again(1) ? 1 : 0,
+            gun -> gun.house(0, 3), gun -> gun.deed(0, 3), gun -> gun.count(12), gun -> gun.row(2)};
+        for (int i = 0; i < calls.length; i++) {
+            NoonGun gun = Twins.midTown();
+            calls[i].make(gun);
+            Check.dueRow("call " + i, gun, 0, 2, 1);
+            Check.due("text, call " + i, gun.count(13), 5);
+            Check.due("winds, call " + i, gun.winds(), 5);
+            Check.dueRow("winds behind call " + i, gun, 0, 2, 1);
+        }
+        Twins.Call[] readers = {NoonGun::houses, NoonGun::deeds, NoonGun::winds, NoonGun::damps, NoonGun::rule};
+        String[] texts = {"11", "01a", "1", "1", "1"};
+        for (int i = 0; i < readers.length; i++) {
+            NoonGun gun = Twins.told(Twins::midTown, texts[i]);
+            Check.due("reader " + i, readers[i].make(gun), i == 4 ? 0 : 1);
+            Check.dueRow("reader " + i, gun, 0, 2, 1);
+            Check.due("text, reader " + i, gun.count(13), 0);
+        }
     }
 }

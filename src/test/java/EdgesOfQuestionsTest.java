@@ -2,49 +2,30 @@
 public final class EdgesOfQuestionsTest {
     private static final int LEAST = Integer.MIN_VALUE;
     private static final int MOST = Integer.MAX_VALUE;
-    private static final String EIGHT_ALIKE = "09a;09a;09a;09a;09a;09a;09a;09a";
 
     public static void main(String[] args) {
         Edges.run(EdgesOfQuestionsTest.class, 20, 34);
     }
 
-    /** One HOUSE with eight DEEDS, of which all pairs, 28, CLASH. */
-    private static NoonGun crowd() {
-        return Check.town("00", EIGHT_ALIKE);
-    }
-
-    private static NoonGun withRule(String houses, String deeds, String rule) {
-        NoonGun gun = Check.town(houses, deeds);
-        Check.due("rule " + rule, Check.rule(gun, rule), 0);
-        return gun;
-    }
-
-    /** A new object whose ROW has two numbers. */
-    private static NoonGun emptyWithRow() {
-        NoonGun gun = new NoonGun();
-        gun.days(1);
-        return gun;
-    }
-
     // ---- 20: order
 
     private static void promise20NoDeeds() {
-        NoonGun gun = emptyWithRow();
+        NoonGun gun = Check.dayOldTown();
         Check.due("none", gun.order(), 0);
         Check.dueRow("none", gun);
     }
 
     private static void promise20LikeOnesByTheirNumbers() {
-        NoonGun gun = crowd();
+        NoonGun gun = Check.crowd();
         Check.due("eight", gun.order(), 8);
         Check.dueRow("eight", gun, 0, 1, 2, 3, 4, 5, 6, 7);
-        gun = withRule("03;01;02", "21a;11a;01a;21a;11a;01a;01a;11a", "d");
+        gun = Check.town("03;01;02", "21a;11a;01a;21a;11a;01a;01a;11a", "d");
         Check.due("eight", gun.order(), 8);
         Check.dueRow("eight", gun, 1, 4, 7, 0, 3, 2, 5, 6);
     }
 
     private static void promise20FromTheLastToTheFirst() {
-        NoonGun gun = withRule("07;06;05;04;03;02;01;00", "09a;11b;21c;31d;41a;51b;61c;71d", "d");
+        NoonGun gun = Check.town("07;06;05;04;03;02;01;00", "09a;11b;21c;31d;41a;51b;61c;71d", "d");
         Check.due("eight", gun.order(), 8);
         Check.dueRow("eight", gun, 7, 6, 5, 4, 3, 2, 1, 0);
     }
@@ -63,7 +44,7 @@ public final class EdgesOfQuestionsTest {
     // ---- 21: clashes
 
     private static void promise21NoDeeds() {
-        NoonGun gun = emptyWithRow();
+        NoonGun gun = Check.dayOldTown();
         Check.due("none", gun.clashes(), 0);
         Check.dueRow("nothing without", gun);
     }
@@ -76,13 +57,13 @@ public final class EdgesOfQuestionsTest {
     }
 
     private static void promise21AllClash() {
-        NoonGun gun = crowd();
+        NoonGun gun = Check.crowd();
         Check.due("all pairs", gun.clashes(), 28);
         Check.dueRow("the first", gun, 0, 1);
     }
 
     private static void promise21TheLastPairAlone() {
-        NoonGun gun = withRule("00;09;18", "09a;09b;09c;09d;19a;19b;29c;29c", "d");
+        NoonGun gun = Check.town("00;09;18", "09a;09b;09c;09d;19a;19b;29c;29c", "d");
         Check.due("one", gun.clashes(), 1);
         Check.dueRow("the last", gun, 6, 7);
     }
@@ -94,23 +75,23 @@ public final class EdgesOfQuestionsTest {
     }
 
     private static void promise21OneThatEndsAt5HasFourAsItsLast() {
-        NoonGun gun = withRule("00;05;04", "05a;11a", "d");
+        NoonGun gun = Check.town("00;05;04", "05a;11a", "d");
         Check.due("5 and 5", gun.clashes(), 0);
-        gun = withRule("00;05;04", "05a;21a", "d");
+        gun = Check.town("00;05;04", "05a;21a", "d");
         Check.due("5 and 4", gun.clashes(), 1);
-        gun = withRule("00;05;04", "25a;04a", "d");
+        gun = Check.town("00;05;04", "25a;04a", "d");
         Check.due("the later one first", gun.clashes(), 0);
     }
 
     private static void promise21OneWithinAnother() {
-        NoonGun gun = withRule("00;04", "09a;11a", "d");
+        NoonGun gun = Check.town("00;04", "09a;11a", "d");
         Check.due("within", gun.clashes(), 1);
-        gun = withRule("00;04", "11a;09a", "d");
+        gun = Check.town("00;04", "11a;09a", "d");
         Check.due("around", gun.clashes(), 1);
     }
 
     private static void promise21WithoutPowderToo() {
-        NoonGun gun = crowd();
+        NoonGun gun = Check.crowd();
         gun.days(60);
         Check.due("all pairs", gun.clashes(), 28);
     }
@@ -122,8 +103,8 @@ public final class EdgesOfQuestionsTest {
     // ---- 22: span
 
     private static void promise22NoDeeds() {
-        Twins.refusedIn(EdgesOfQuestionsTest::emptyWithRow, "no deeds", -2, gun -> gun.span());
-        Twins.refusedIn(() -> Check.town("00;11", ""), "houses alone", -2, gun -> gun.span());
+        Twins.refusedIn(() -> Twins.lived(new NoonGun()), "no deeds", -2, gun -> gun.span());
+        Twins.refusedIn(() -> Twins.lived(Check.town("00;11", "")), "houses alone", -2, gun -> gun.span());
     }
 
     private static void promise22TheShortestOne() {
@@ -133,32 +114,32 @@ public final class EdgesOfQuestionsTest {
     }
 
     private static void promise22TheLatestOne() {
-        NoonGun gun = withRule("00", "09a", "99");
+        NoonGun gun = Check.town("00", "09a", "99");
         Check.damps(gun, "9");
         Check.due("nine minutes", gun.span(), 9);
         Check.dueRow("nine minutes", gun, 108, 117, 0);
     }
 
     private static void promise22TheWidestGap() {
-        NoonGun gun = withRule("00;10", "01a;19a", "x*99");
+        NoonGun gun = Check.town("00;10", "01a;19a", "x*99");
         Check.due("ten minutes", gun.span(), 10);
         Check.dueRow("ten minutes", gun, 0, 108, 98);
     }
 
     private static void promise22OneBeginsWhenAnotherEnds() {
-        NoonGun gun = withRule("00;05", "05a;12a", "d");
+        NoonGun gun = Check.town("00;05", "05a;12a", "d");
         Check.due("no gap", gun.span(), 7);
         Check.dueRow("no gap", gun, 0, 7, 0);
-        gun = withRule("00;06", "05a;12a", "d");
+        gun = Check.town("00;06", "05a;12a", "d");
         Check.due("a gap of one", gun.span(), 7);
         Check.dueRow("a gap of one", gun, 0, 8, 1);
-        gun = withRule("00;04", "05a;12a", "d");
+        gun = Check.town("00;04", "05a;12a", "d");
         Check.due("one in common", gun.span(), 6);
         Check.dueRow("one in common", gun, 0, 6, 0);
     }
 
     private static void promise22TheLastOneToEndDidNotBeginLast() {
-        NoonGun gun = withRule("01;03", "11a;09a", "d");
+        NoonGun gun = Check.town("01;03", "11a;09a", "d");
         Check.due("nine minutes", gun.span(), 9);
         Check.dueRow("nine minutes", gun, 1, 10, 0);
     }
@@ -190,7 +171,7 @@ public final class EdgesOfQuestionsTest {
     }
 
     private static void promise23TheFirstAndTheLastLane() {
-        NoonGun gun = withRule("00;03", "04a;19d", "d");
+        NoonGun gun = Check.town("00;03", "04a;19d", "d");
         Check.due("a", gun.lane(0), 4);
         Check.dueRow("a", gun, 1, 0);
         Check.due("d", gun.lane(3), 9);
@@ -198,20 +179,20 @@ public final class EdgesOfQuestionsTest {
     }
 
     private static void promise23EachMinuteOnce() {
-        NoonGun gun = crowd();
+        NoonGun gun = Check.crowd();
         Check.due("nine", gun.lane(0), 9);
         Check.dueRow("all eight", gun, 8, 0);
     }
 
     private static void promise23TheFirstSuchMinute() {
-        NoonGun gun = withRule("00;02;09;08", "03a;14a;21a;39a", "d");
+        NoonGun gun = Check.town("00;02;09;08", "03a;14a;21a;39a", "d");
         // On 0-2, 2-5, 9, 8-16: two on minute 2, and on minute 9.
         Check.due("minutes", gun.lane(0), 15);
         Check.dueRow("the first of two", gun, 2, 2);
     }
 
     private static void promise23OneBeginsWhenAnotherEnds() {
-        NoonGun gun = withRule("00;05", "05b;12b", "d");
+        NoonGun gun = Check.town("00;05", "05b;12b", "d");
         Check.due("seven", gun.lane(1), 7);
         Check.dueRow("never two", gun, 1, 0);
         gun.takes(0, 6);
@@ -220,7 +201,7 @@ public final class EdgesOfQuestionsTest {
     }
 
     private static void promise23TheLatestMinutes() {
-        NoonGun gun = withRule("00", "09a", "99");
+        NoonGun gun = Check.town("00", "09a", "99");
         Check.damps(gun, "9");
         Check.due("nine", gun.lane(0), 9);
         Check.dueRow("the first", gun, 1, 108);
@@ -242,7 +223,7 @@ public final class EdgesOfQuestionsTest {
     }
 
     private static void promise24ThisDay() {
-        NoonGun gun = crowd();
+        NoonGun gun = Check.crowd();
         Check.winds(gun, "12");
         Check.damps(gun, "34");
         gun.days(1);
@@ -257,7 +238,7 @@ public final class EdgesOfQuestionsTest {
         winds.setCharAt(day % 20, '9');
         damps.setCharAt(day % 19, '9');
         String rule = quiet ? "x*(w=9)*(m=9)*9" : "x*9*(1-(w=9)*(m=9))";
-        NoonGun gun = withRule("00;10", "01a;11a", rule);
+        NoonGun gun = Check.town("00;10", "01a;11a", rule);
         Check.winds(gun, winds.toString());
         Check.damps(gun, damps.toString());
         return gun;
@@ -274,7 +255,7 @@ public final class EdgesOfQuestionsTest {
     }
 
     private static void promise24DaysGoRoundBy7() {
-        NoonGun gun = withRule("00;10", "01a;11a", "x*n");
+        NoonGun gun = Check.town("00;10", "01a;11a", "x*n");
         for (int n = 0; n <= 99; n++) {
             Check.due("day " + n, gun.ahead(n), n % 7 == 0 ? 1 : 0);
         }
@@ -287,7 +268,7 @@ public final class EdgesOfQuestionsTest {
     }
 
     private static void promise24WithoutPowderToo() {
-        NoonGun gun = crowd();
+        NoonGun gun = Check.crowd();
         gun.days(19);
         Check.due("powder ends ahead of it", gun.ahead(5), 28);
         gun.days(60);
@@ -302,13 +283,7 @@ public final class EdgesOfQuestionsTest {
     // ---- 25: quiet
 
     private static void promise25OnNone() {
-        Twins.refusedIn(EdgesOfQuestionsTest::emptyTextCrowd, "never", -2, gun -> gun.quiet());
-    }
-
-    private static NoonGun emptyTextCrowd() {
-        NoonGun gun = crowd();
-        gun.days(2);
-        return gun;
+        Twins.refusedIn(() -> Twins.lived(Check.crowd()), "never", -2, gun -> gun.quiet());
     }
 
     private static void promise25ThisDay() {
@@ -345,7 +320,7 @@ public final class EdgesOfQuestionsTest {
     }
 
     private static void promise25WithoutPowderToo() {
-        NoonGun gun = crowd();
+        NoonGun gun = Check.crowd();
         gun.days(60);
         Check.due("never", gun.quiet(), -2);
     }
@@ -357,14 +332,14 @@ public final class EdgesOfQuestionsTest {
     // ---- 26: lasts
 
     private static void promise26NoPowder() {
-        NoonGun gun = crowd();
+        NoonGun gun = Check.crowd();
         gun.days(20);
         Check.due("none", gun.lasts(), 0);
         Check.dueRow("none", gun, 0);
     }
 
     private static void promise26AllThePowder() {
-        NoonGun gun = crowd();
+        NoonGun gun = Check.crowd();
         gun.buys(79);
         Check.due("99", gun.lasts(), 99);
         Check.dueRow("99", gun, 99 * 28);
@@ -383,7 +358,7 @@ public final class EdgesOfQuestionsTest {
     }
 
     private static void promise26ClashesAside() {
-        NoonGun gun = crowd();
+        NoonGun gun = Check.crowd();
         for (int i = 0; i < 6; i++) {
             gun.buys(99 - gun.count(3));
             gun.days(60);
@@ -406,7 +381,7 @@ public final class EdgesOfQuestionsTest {
     // ---- 27: fewest
 
     private static void promise27NoDeeds() {
-        NoonGun gun = emptyWithRow();
+        NoonGun gun = Check.dayOldTown();
         Check.due("none", gun.fewest(), 0);
         Check.dueRow("none", gun, 0);
     }
@@ -418,7 +393,7 @@ public final class EdgesOfQuestionsTest {
     }
 
     private static void promise27AllButOne() {
-        NoonGun gun = crowd();
+        NoonGun gun = Check.crowd();
         Check.due("seven", gun.fewest(), 7);
         Check.dueRow("the least bits", gun, 127);
     }
@@ -439,7 +414,7 @@ public final class EdgesOfQuestionsTest {
     }
 
     private static void promise27WithoutPowderToo() {
-        NoonGun gun = crowd();
+        NoonGun gun = Check.crowd();
         gun.days(60);
         Check.due("seven", gun.fewest(), 7);
     }
@@ -451,19 +426,19 @@ public final class EdgesOfQuestionsTest {
     // ---- 28: longest
 
     private static void promise28NoDeeds() {
-        NoonGun gun = emptyWithRow();
+        NoonGun gun = Check.dayOldTown();
         Check.due("none", gun.longest(), 0);
         Check.dueRow("none", gun, 0);
     }
 
     private static void promise28AllOfThem() {
-        NoonGun gun = withRule("00;09", "09a;09b;09c;09d;19a;19b;19c;19d", "d");
+        NoonGun gun = Check.town("00;09", "09a;09b;09c;09d;19a;19b;19c;19d", "d");
         Check.due("all", gun.longest(), 72);
         Check.dueRow("all", gun, 255);
     }
 
     private static void promise28OneAlone() {
-        NoonGun gun = crowd();
+        NoonGun gun = Check.crowd();
         Check.due("one", gun.longest(), 9);
         Check.dueRow("the least bits", gun, 1);
         gun.takes(0, 8);
@@ -491,7 +466,7 @@ public final class EdgesOfQuestionsTest {
     }
 
     private static void promise28WithoutPowderToo() {
-        NoonGun gun = crowd();
+        NoonGun gun = Check.crowd();
         gun.days(60);
         Check.due("one", gun.longest(), 9);
     }
@@ -503,20 +478,20 @@ public final class EdgesOfQuestionsTest {
     // ---- 29: best
 
     private static void promise29NoDeeds() {
-        NoonGun gun = emptyWithRow();
+        NoonGun gun = Check.dayOldTown();
         Check.due("none", gun.best(), 0);
         Check.dueRow("the least row", gun, 0, 0, 0);
     }
 
     private static void promise29TheFirstPlace() {
-        NoonGun gun = crowd();
+        NoonGun gun = Check.crowd();
         gun.hauls(5, 5);
         Check.due("no place is better", gun.best(), 28);
         Check.dueRow("the least row", gun, 0, 0, 28);
     }
 
     private static void promise29TheLastPlace() {
-        NoonGun gun = withRule("99;00", "01a;11a", "(d=0)*x*9");
+        NoonGun gun = Check.town("99;00", "01a;11a", "(d=0)*x*9");
         Check.due("none clash", gun.best(), 0);
         Check.dueRow("9, 9 alone", gun, 9, 9, 1);
         gun.hauls(9, 9);
@@ -525,7 +500,7 @@ public final class EdgesOfQuestionsTest {
     }
 
     private static void promise29OfAsFewTheLeastRow() {
-        NoonGun gun = withRule("37;82;00", "01a;11a;21a", "(d=0)*(x+1)*9");
+        NoonGun gun = Check.town("37;82;00", "01a;11a;21a", "(d=0)*(x+1)*9");
         // At 3, 7 or at 8, 2, and at 0, 0, where it is: one DEED is apart, and one pair is left.
         gun.hauls(9, 9);
         Check.due("one pair", gun.best(), 1);
@@ -535,8 +510,17 @@ public final class EdgesOfQuestionsTest {
         Check.dueRow("3, 7", gun, 3, 7, 3);
     }
 
+    private static void promise29NoPlaceOutsideOfTheTown() {
+        // From a place beside the town's edge it would be 19 to the other corner.
+        for (String corner : new String[] {"00", "09", "90", "99"}) {
+            NoonGun gun = Check.town(corner + ";55", "01a;11a", "(d>18)*9");
+            Check.due("corner " + corner, gun.best(), 1);
+            Check.dueRow("corner " + corner, gun, 0, 0, 1);
+        }
+    }
+
     private static void promise29WithoutPowderToo() {
-        NoonGun gun = withRule("99;00", "01a;11a", "(d=0)*x*9");
+        NoonGun gun = Check.town("99;00", "01a;11a", "(d=0)*x*9");
         gun.days(60);
         Check.due("none clash", gun.best(), 0);
         Check.dueRow("9, 9 alone", gun, 9, 9, 1);
@@ -549,40 +533,48 @@ public final class EdgesOfQuestionsTest {
     // ---- 30: middle
 
     private static void promise30NoHouses() {
-        Twins.refusedIn(EdgesOfQuestionsTest::emptyWithRow, "no houses", -2, gun -> gun.middle());
+        Twins.refusedIn(() -> Twins.lived(new NoonGun()), "no houses", -2, gun -> gun.middle());
     }
 
     private static void promise30TheFirstPlace() {
-        NoonGun gun = withRule("99", "", "7");
+        NoonGun gun = Check.town("99", "", "7");
         Check.due("like everywhere", gun.middle(), 7);
         Check.dueRow("the least row", gun, 0, 0);
     }
 
     private static void promise30TheLastPlace() {
-        NoonGun gun = withRule("99", "", "d");
+        NoonGun gun = Check.town("99", "", "d");
         Check.damps(gun, "9");
         Check.due("at the house", gun.middle(), 9);
         Check.dueRow("9, 9", gun, 9, 9);
     }
 
     private static void promise30OfLikeOnesTheLeastRow() {
-        NoonGun gun = withRule("00;02", "", "d");
+        NoonGun gun = Check.town("00;02", "", "d");
         Check.due("one off", gun.middle(), 1);
         Check.dueRow("between", gun, 0, 1);
-        gun = withRule("00;11", "", "d");
+        gun = Check.town("00;11", "", "d");
         Check.due("one off", gun.middle(), 1);
         Check.dueRow("0, 1 or 1, 0", gun, 0, 1);
     }
 
     private static void promise30TheLatest() {
-        NoonGun gun = withRule("00", "", "999");
+        NoonGun gun = Check.town("00", "", "999");
         Check.damps(gun, "9");
         Check.due("108", gun.middle(), 108);
         Check.dueRow("108", gun, 0, 0);
     }
 
+    private static void promise30NoPlaceOutsideOfTheTown() {
+        for (String corner : new String[] {"00", "09", "90", "99"}) {
+            NoonGun gun = Check.town(corner, "", "99-(d>18)*9");
+            Check.due("corner " + corner, gun.middle(), 99);
+            Check.dueRow("corner " + corner, gun, 0, 0);
+        }
+    }
+
     private static void promise30HousesWithoutDeedsToo() {
-        NoonGun gun = withRule("00;99", "09a", "d");
+        NoonGun gun = Check.town("00;99", "09a", "d");
         Check.due("the last of both", gun.middle(), 9);
         Check.dueRow("between", gun, 0, 9);
     }
@@ -602,22 +594,20 @@ public final class EdgesOfQuestionsTest {
     }
 
     private static void promise31NotAtAll() {
-        NoonGun gun = withRule("04", "03a;03b", "d");
+        NoonGun gun = Check.town("04", "03a;03b", "d");
         Check.due("0", gun.holds(1), 0);
         Check.dueRow("when it is heard", gun, 4);
     }
 
     private static void promise31ByNine() {
-        NoonGun gun = crowd();
+        NoonGun gun = Check.crowd();
         Check.due("nine", gun.holds(7), 9);
         Check.dueRow("nine", gun, 9);
         Check.due("the first, too", gun.holds(0), 9);
     }
 
     private static NoonGun tenLate() {
-        NoonGun gun = withRule("00;01", "09a;19a;03a", "d");
-        gun.days(1);
-        return gun;
+        return Twins.lived(Check.town("71;72", "09a;19a;03a", "d"));
     }
 
     private static void promise31ByNoneOfThese() {
@@ -629,7 +619,7 @@ public final class EdgesOfQuestionsTest {
     }
 
     private static void promise31TillTheOtherOneEnds() {
-        NoonGun gun = withRule("00;02", "05a;13a", "d");
+        NoonGun gun = Check.town("00;02", "05a;13a", "d");
         Check.due("to minute 5", gun.holds(1), 3);
         Check.dueRow("to minute 5", gun, 5);
         Check.due("to minute 5 from 0", gun.holds(0), 5);
@@ -637,7 +627,7 @@ public final class EdgesOfQuestionsTest {
     }
 
     private static void promise31HeldInAGapThatJustFits() {
-        NoonGun gun = withRule("00;05", "02a;13a;03a", "d");
+        NoonGun gun = Check.town("00;05", "02a;13a;03a", "d");
         Check.due("between 2 and 5", gun.holds(2), 2);
         Check.dueRow("between 2 and 5", gun, 2);
         gun.takes(2, 4);
@@ -646,7 +636,7 @@ public final class EdgesOfQuestionsTest {
     }
 
     private static void promise31WithoutPowderToo() {
-        NoonGun gun = crowd();
+        NoonGun gun = Check.crowd();
         gun.days(60);
         Check.due("nine", gun.holds(7), 9);
     }
@@ -659,25 +649,25 @@ public final class EdgesOfQuestionsTest {
     // ---- 32: hands
 
     private static void promise32NoDeeds() {
-        NoonGun gun = emptyWithRow();
+        NoonGun gun = Check.dayOldTown();
         Check.due("none", gun.hands(), 0);
         Check.dueRow("none", gun);
     }
 
     private static void promise32AHandForEach() {
-        NoonGun gun = crowd();
+        NoonGun gun = Check.crowd();
         Check.due("eight", gun.hands(), 8);
         Check.dueRow("eight", gun, 0, 1, 2, 3, 4, 5, 6, 7);
     }
 
     private static void promise32OneHandForAll() {
-        NoonGun gun = withRule("07;06;05;04;03;02;01;00", "09a;11b;21c;31d;41a;51b;61c;71d", "d");
+        NoonGun gun = Check.town("07;06;05;04;03;02;01;00", "09a;11b;21c;31d;41a;51b;61c;71d", "d");
         Check.due("one", gun.hands(), 1);
         Check.dueRow("one", gun, 0, 0, 0, 0, 0, 0, 0, 0);
     }
 
     private static void promise32OneEndsWhenAnotherBegins() {
-        NoonGun gun = withRule("00;05", "05a;11a", "d");
+        NoonGun gun = Check.town("00;05", "05a;11a", "d");
         Check.due("one hand", gun.hands(), 1);
         Check.dueRow("one hand", gun, 0, 0);
         gun.takes(0, 6);
@@ -692,20 +682,20 @@ public final class EdgesOfQuestionsTest {
     }
 
     private static void promise32TheFirstHandThatIsFree() {
-        NoonGun gun = withRule("00;03;05;09", "05a;02a;11a;22a;31a", "d");
+        NoonGun gun = Check.town("00;03;05;09", "05a;02a;11a;22a;31a", "d");
         // On 0-4, 0-1, 3, 5-6, 9: the third DEED goes to hand 1, later ones to hand 0.
         Check.due("two", gun.hands(), 2);
         Check.dueRow("two", gun, 0, 1, 1, 0, 0);
     }
 
     private static void promise32GivenInTheirOrder() {
-        NoonGun gun = withRule("09;00", "01a;19a;11a", "d");
+        NoonGun gun = Check.town("09;00", "01a;19a;11a", "d");
         Check.due("two", gun.hands(), 2);
         Check.dueRow("the first deed comes last", gun, 0, 0, 1);
     }
 
     private static void promise32WithoutPowderToo() {
-        NoonGun gun = crowd();
+        NoonGun gun = Check.crowd();
         gun.days(60);
         Check.due("eight", gun.hands(), 8);
     }
@@ -725,41 +715,41 @@ public final class EdgesOfQuestionsTest {
     }
 
     private static void promise33AtTheSameMinute() {
-        NoonGun gun = withRule("00;01", "", "7");
+        NoonGun gun = Check.town("00;01", "", "7");
         Check.due("100", gun.echo(0), 100);
         Check.dueRow("none is behind", gun, 0);
     }
 
     private static void promise33AheadOfIt() {
-        NoonGun gun = withRule("00;01", "", "99-e*99");
+        NoonGun gun = Check.town("00;01", "", "99-e*99");
         Check.due("by 99", gun.echo(1), 1);
         Check.dueRow("all are behind", gun, 3);
-        gun = withRule("00;01", "", "7-e");
+        gun = Check.town("00;01", "", "7-e");
         Check.due("by 1", gun.echo(1), 99);
         Check.dueRow("all are behind", gun, 3);
     }
 
     private static void promise33BehindIt() {
-        NoonGun gun = withRule("00;01", "", "e*99");
+        NoonGun gun = Check.town("00;01", "", "e*99");
         Check.damps(gun, "9");
         Check.due("by 99", gun.echo(1), 199);
         Check.dueRow("none is behind", gun, 0);
     }
 
     private static void promise33HousesBehindThatMinute() {
-        NoonGun gun = withRule("00;01;02;03;04;05;06;07", "", "y+e*3");
+        NoonGun gun = Check.town("00;01;02;03;04;05;06;07", "", "y+e*3");
         Check.due("of the first", gun.echo(0), 103);
         Check.dueRow("from the fifth on", gun, 0xF0);
         Check.due("of the fifth", gun.echo(4), 103);
         Check.dueRow("of the fifth", gun, 0);
         Check.due("of the last", gun.echo(7), 103);
-        gun = withRule("00;01;02;03;04;05;06;07", "", "y-e*3");
+        gun = Check.town("00;01;02;03;04;05;06;07", "", "y-e*3");
         Check.due("of the last", gun.echo(7), 97);
         Check.dueRow("at 4", gun, 0xE0);
     }
 
     private static void promise33TheHillWhereTheGunIs() {
-        NoonGun gun = withRule("55", "", "d");
+        NoonGun gun = Check.town("55", "", "d");
         gun.hill(0, 0);
         Check.due("100", gun.echo(0), 100);
         gun.hill(5, 5);
@@ -776,7 +766,7 @@ public final class EdgesOfQuestionsTest {
     // ---- 34: together
 
     private static void promise34NoHouses() {
-        NoonGun gun = emptyWithRow();
+        NoonGun gun = Check.dayOldTown();
         Check.due("none", gun.together(), 0);
         Check.dueRow("no minutes", gun, 0);
     }
@@ -788,19 +778,19 @@ public final class EdgesOfQuestionsTest {
     }
 
     private static void promise34AllOfThem() {
-        NoonGun gun = withRule("00;11;22;33;44;55;66;77", "", "5");
+        NoonGun gun = Check.town("00;11;22;33;44;55;66;77", "", "5");
         Check.due("all", gun.together(), 255);
         Check.dueRow("one minute", gun, 1);
     }
 
     private static void promise34NoneOfThem() {
-        NoonGun gun = withRule("00;11;22;33;44;55;66;77", "", "d");
+        NoonGun gun = Check.town("00;11;22;33;44;55;66;77", "", "d");
         Check.due("none", gun.together(), 0);
         Check.dueRow("eight minutes", gun, 8);
     }
 
     private static void promise34TheFirstAndTheLast() {
-        NoonGun gun = withRule("07;11;22;33;44;55;66;70", "", "d");
+        NoonGun gun = Check.town("07;11;22;33;44;55;66;70", "", "d");
         Check.due("both", gun.together(), 129);
         Check.dueRow("seven minutes", gun, 7);
     }

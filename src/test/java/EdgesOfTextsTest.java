@@ -14,23 +14,6 @@ public final class EdgesOfTextsTest {
         return text.repeat(n);
     }
 
-    /**
-     * Which of all signs can stand behind a text, told by where it is at fault. A fault stands behind
-     * each of them, so that no text comes.
-     */
-    private static String standing(String ahead, Twins.Town town, Twins.Call reader) {
-        StringBuilder standing = new StringBuilder();
-        for (char sign = 0; sign < 256; sign++) {
-            NoonGun gun = town.make();
-            gun.end(0);
-            Check.text(gun, ahead + sign + "!");
-            if (reader.make(gun) != -1 - ahead.length()) {
-                standing.append(sign);
-            }
-        }
-        return standing.toString();
-    }
-
     // ---- 1: a new object
 
     private static void promise01NoHouses() {
@@ -76,9 +59,9 @@ public final class EdgesOfTextsTest {
 
     private static void promise01HillIsAt99() {
         Check.due("it is there", new NoonGun().hill(9, 9), 0);
-        NoonGun gun = Check.town("99", "");
-        Check.rule(gun, "d");
+        NoonGun gun = Check.town("99;00", "", "d");
         Check.due("the echo at once", gun.house(0, 4), 18);
+        Check.due("the echo back", gun.house(1, 4), 36);
     }
 
     private static void promise01WindsAndDampsAre0() {
@@ -258,11 +241,11 @@ public final class EdgesOfTextsTest {
     }
 
     private static void promise04WhichSignsCanStand() {
-        Check.due("x", standing("", NoonGun::new, gun -> gun.houses()), "0123456789");
-        Check.due("y", standing("1", NoonGun::new, gun -> gun.houses()), "0123456789");
-        Check.due("between", standing("12", NoonGun::new, gun -> gun.houses()), ";");
-        Check.due("x of the next one", standing("12;", NoonGun::new, gun -> gun.houses()), "0123456789");
-        Check.due("y of the next one", standing("12;3", NoonGun::new, gun -> gun.houses()), "0123456789");
+        Check.due("x", Twins.standing("", NoonGun::new, gun -> gun.houses()), "0123456789");
+        Check.due("y", Twins.standing("1", NoonGun::new, gun -> gun.houses()), "0123456789");
+        Check.due("between", Twins.standing("12", NoonGun::new, gun -> gun.houses()), ";");
+        Check.due("x of the next one", Twins.standing("12;", NoonGun::new, gun -> gun.houses()), "0123456789");
+        Check.due("y of the next one", Twins.standing("12;3", NoonGun::new, gun -> gun.houses()), "0123456789");
     }
 
     private static void promise04CornersOfTheTown() {
@@ -291,7 +274,8 @@ public final class EdgesOfTextsTest {
     private static void promise04MoreThanTwentyThree() {
         String[] behind = {";", ";8", ";88", "0", "!", times("\u00ff", 57), times("0", 57)};
         for (String signs : behind) {
-            Twins.refusedTextIn(NoonGun::new, "houses", EIGHT + signs, -24, gun -> gun.houses());
+            Twins.Town town = () -> Twins.lived(new NoonGun());
+            Twins.refusedTextIn(town, "houses", EIGHT + signs, -24, gun -> gun.houses());
         }
     }
 
@@ -373,13 +357,13 @@ public final class EdgesOfTextsTest {
             for (int house = 0; house < there; house++) {
                 digits.append(house);
             }
-            Check.due("of " + there, standing("", withHouses(there), gun -> gun.deeds()), digits.toString());
+            Check.due("of " + there, Twins.standing("", withHouses(there), gun -> gun.deeds()), digits.toString());
         }
         Twins.refusedTextIn(Twins::midTown, "deeds", "21a;31a", -5, gun -> gun.deeds());
     }
 
     private static void promise05WhichLengthsCanStand() {
-        Check.due("length", standing("0", withHouses(1), gun -> gun.deeds()), "123456789");
+        Check.due("length", Twins.standing("0", withHouses(1), gun -> gun.deeds()), "123456789");
         Twins.refusedTextIn(Twins::midTown, "deeds", "00a", -2, gun -> gun.deeds());
     }
 
@@ -390,7 +374,7 @@ public final class EdgesOfTextsTest {
     }
 
     private static void promise05AtLeastOneLane() {
-        Check.due("the first letter", standing("01", withHouses(1), gun -> gun.deeds()), "abcd");
+        Check.due("the first letter", Twins.standing("01", withHouses(1), gun -> gun.deeds()), "abcd");
         Twins.refusedTextIn(Twins::midTown, "deeds", "01", -3, gun -> gun.deeds());
         Twins.refusedTextIn(Twins::midTown, "deeds", "01;01a", -3, gun -> gun.deeds());
         Twins.refusedTextIn(Twins::midTown, "deeds", "01a;01", -7, gun -> gun.deeds());
@@ -400,7 +384,7 @@ public final class EdgesOfTextsTest {
         String[] lanes = {"a", "b", "c", "d", "ab", "ac", "bd", "abc", "abcd"};
         String[] standing = {";bcd", ";cd", ";d", ";", ";cd", ";d", ";", ";d", ";"};
         for (int i = 0; i < lanes.length; i++) {
-            String got = standing("01" + lanes[i], withHouses(1), gun -> gun.deeds());
+            String got = Twins.standing("01" + lanes[i], withHouses(1), gun -> gun.deeds());
             Check.due("behind " + lanes[i], got, standing[i]);
         }
     }
@@ -439,7 +423,8 @@ public final class EdgesOfTextsTest {
     private static void promise05MoreThanFiftyFive() {
         String[] behind = {";", ";0", ";01a", "a", "d", "e", "!", times("\u00ff", 25)};
         for (String signs : behind) {
-            Twins.refusedTextIn(withHouses(3), "deeds", EIGHT_DEEDS + signs, -56, gun -> gun.deeds());
+            Twins.Town town = () -> Twins.lived(withHouses(3).make());
+            Twins.refusedTextIn(town, "deeds", EIGHT_DEEDS + signs, -56, gun -> gun.deeds());
         }
     }
 
@@ -504,79 +489,73 @@ public final class EdgesOfTextsTest {
 
     // ---- 6 and 7: winds, damps
 
+    private interface Reader {
+        int read(NoonGun gun, String text);
+    }
+
     private static void promise06EndsForNone() {
-        Twins.refusedText("winds", "", -1, gun -> gun.winds());
+        Twins.refusedText("winds", "", -1, NoonGun::winds);
     }
 
     private static void promise07EndsForNone() {
-        Twins.refusedText("damps", "", -1, gun -> gun.damps());
+        Twins.refusedText("damps", "", -1, NoonGun::damps);
     }
 
     private static void promise06ATwentyFirstSign() {
-        String[] behind = {"0", "x", times("7", 60)};
-        for (String signs : behind) {
-            Twins.refusedText("winds", times("4", 20) + signs, -21, gun -> gun.winds());
-        }
+        dueNoTwentyFirst("winds", NoonGun::winds);
     }
 
     private static void promise07ATwentyFirstSign() {
+        dueNoTwentyFirst("damps", NoonGun::damps);
+    }
+
+    private static void dueNoTwentyFirst(String what, Twins.Call reader) {
         String[] behind = {"0", "x", times("7", 60)};
         for (String signs : behind) {
-            Twins.refusedText("damps", times("4", 20) + signs, -21, gun -> gun.damps());
+            Twins.refusedText(what, times("4", 20) + signs, -21, reader);
         }
     }
 
     private static void promise06WhichSignsCanStand() {
-        Check.due("the first", standing("", NoonGun::new, gun -> gun.winds()), "0123456789");
-        Check.due("the twentieth", standing(times("3", 19), NoonGun::new, gun -> gun.winds()), "0123456789");
+        dueDigits(NoonGun::winds);
     }
 
     private static void promise07WhichSignsCanStand() {
-        Check.due("the first", standing("", NoonGun::new, gun -> gun.damps()), "0123456789");
-        Check.due("the twentieth", standing(times("3", 19), NoonGun::new, gun -> gun.damps()), "0123456789");
+        dueDigits(NoonGun::damps);
+    }
+
+    private static void dueDigits(Twins.Call reader) {
+        Check.due("the first", Twins.standing("", NoonGun::new, reader), "0123456789");
+        Check.due("the twentieth", Twins.standing(times("3", 19), NoonGun::new, reader), "0123456789");
     }
 
     private static void promise06AFaultIsTheFirstOne() {
-        for (int p = 0; p < 20; p++) {
-            String text = times("5", p) + ";" + times("5", 30);
-            Twins.refusedText("winds", text, -1 - p, gun -> gun.winds());
-        }
+        dueFirstFault("winds", NoonGun::winds);
     }
 
     private static void promise07AFaultIsTheFirstOne() {
+        dueFirstFault("damps", NoonGun::damps);
+    }
+
+    private static void dueFirstFault(String what, Twins.Call reader) {
         for (int p = 0; p < 20; p++) {
-            String text = times("5", p) + ";" + times("5", 30);
-            Twins.refusedText("damps", text, -1 - p, gun -> gun.damps());
+            Twins.refusedText(what, times("5", p) + ";" + times("5", 30), -1 - p, reader);
         }
     }
 
     private static void promise06OneSignIsEachDays() {
-        NoonGun gun = new NoonGun();
-        Check.due("one", Check.winds(gun, "9"), 1);
-        for (int n = 0; n <= 99; n += 9) {
-            gun.ahead(n);
-            Check.dueRow("day " + n, gun, 0, 9);
-        }
+        dueOnDays(Check::winds, "9", 1, new int[] {0, 1, 7, 20, 99}, 9, 9, 9, 9, 9);
     }
 
     private static void promise07OneSignIsEachDays() {
-        NoonGun gun = new NoonGun();
-        Check.due("one", Check.damps(gun, "9"), 1);
-        for (int n = 0; n <= 99; n += 9) {
-            gun.ahead(n);
-            Check.dueRow("day " + n, gun, 9, 0);
-        }
+        dueOnDays(Check::damps, "9", 0, new int[] {0, 1, 7, 20, 99}, 9, 9, 9, 9, 9);
     }
 
+    private static final String TWENTY = "90817263540918273645";
+    private static final int[] ROUND = {0, 1, 2, 19, 20, 21, 39, 40, 99};
+
     private static void promise06TwentyGoRound() {
-        NoonGun gun = new NoonGun();
-        Check.due("twenty", Check.winds(gun, "90817263540918273645"), 20);
-        int[] due = {9, 0, 8, 5, 9, 0, 5, 9, 5};
-        int[] days = {0, 1, 2, 19, 20, 21, 39, 40, 99};
-        for (int i = 0; i < days.length; i++) {
-            gun.ahead(days[i]);
-            Check.due("day " + days[i], gun.row(1), due[i]);
-        }
+        NoonGun gun = dueOnDays(Check::winds, TWENTY, 1, ROUND, 9, 0, 8, 5, 9, 0, 5, 9, 5);
         gun.days(60);
         gun.days(60);
         Check.due("day 120", gun.count(8), 9);
@@ -585,14 +564,7 @@ public final class EdgesOfTextsTest {
     }
 
     private static void promise07TwentyGoRound() {
-        NoonGun gun = new NoonGun();
-        Check.due("twenty", Check.damps(gun, "90817263540918273645"), 20);
-        int[] due = {9, 0, 8, 5, 9, 0, 5, 9, 5};
-        int[] days = {0, 1, 2, 19, 20, 21, 39, 40, 99};
-        for (int i = 0; i < days.length; i++) {
-            gun.ahead(days[i]);
-            Check.due("day " + days[i], gun.row(0), due[i]);
-        }
+        NoonGun gun = dueOnDays(Check::damps, TWENTY, 0, ROUND, 9, 0, 8, 5, 9, 0, 5, 9, 5);
         gun.days(60);
         gun.days(60);
         Check.due("day 120", gun.count(9), 9);
@@ -600,24 +572,33 @@ public final class EdgesOfTextsTest {
         Check.due("day 139", gun.count(9), 5);
     }
 
-    private static void promise06AShorterOneTakesItsPlace() {
+    /** As ahead() tells them: which number of the ROW is due to be what on which days. */
+    private static NoonGun dueOnDays(Reader reader, String text, int number, int[] days, int... due) {
         NoonGun gun = new NoonGun();
-        Check.winds(gun, "12345");
-        Check.due("two", Check.winds(gun, "67"), 2);
-        gun.ahead(2);
-        Check.due("day 2", gun.row(1), 6);
-        gun.ahead(3);
-        Check.due("day 3", gun.row(1), 7);
+        Check.due("signs", reader.read(gun, text), text.length());
+        for (int i = 0; i < days.length; i++) {
+            gun.ahead(days[i]);
+            Check.dueRow("day " + days[i], gun, number == 0 ? due[i] : 0, number == 0 ? 0 : due[i]);
+        }
+        return gun;
+    }
+
+    private static void promise06AShorterOneTakesItsPlace() {
+        dueShorter(Check::winds, 1);
     }
 
     private static void promise07AShorterOneTakesItsPlace() {
+        dueShorter(Check::damps, 0);
+    }
+
+    private static void dueShorter(Reader reader, int number) {
         NoonGun gun = new NoonGun();
-        Check.damps(gun, "12345");
-        Check.due("two", Check.damps(gun, "67"), 2);
-        gun.ahead(2);
-        Check.due("day 2", gun.row(0), 6);
-        gun.ahead(3);
-        Check.due("day 3", gun.row(0), 7);
+        reader.read(gun, "12345");
+        Check.due("two", reader.read(gun, "67"), 2);
+        for (int day = 0; day < 6; day++) {
+            gun.ahead(day);
+            Check.due("day " + day, gun.row(number), 6 + day % 2);
+        }
     }
 
     // ---- 8: rule
@@ -657,21 +638,23 @@ public final class EdgesOfTextsTest {
         String things = "(-0123456789demnwxy";
         String[] ahead = {"", "(", "-", "d+", "d-", "d*", "d/", "d<", "d>", "d=", "(d)+("};
         for (String text : ahead) {
-            String got = standing(text, NoonGun::new, gun -> gun.rule());
+            String got = Twins.standing(text, NoonGun::new, gun -> gun.rule());
             Check.due("behind " + text, sorted(got), sorted(things));
         }
     }
 
     private static void promise08WhichSignsGoOn() {
         String joins = "*+-/<=>";
-        String[] ahead = {"d", "e", "123", "(d)", "-d", "1", "12", "(d", "(7", "(123", "d<w", "1=2", "(d<w)", "(d<w"};
         String digits = "0123456789";
         String some = "*+-/";
-        String[] due = {joins, joins, joins, joins, joins, joins + digits, joins + digits, joins + ")", joins + digits + ")",
-            joins + ")", some, some + digits, joins, some + ")"};
-        for (int i = 0; i < ahead.length; i++) {
-            String got = standing(ahead[i], NoonGun::new, gun -> gun.rule());
-            Check.due("behind " + ahead[i], sorted(got), sorted(due[i]));
+        String[][] all = {
+            {"d", joins}, {"e", joins}, {"123", joins}, {"(d)", joins}, {"(1)", joins}, {"(12)", joins}, {"-d", joins},
+            {"1", joins + digits}, {"12", joins + digits}, {"(d", joins + ")"}, {"(7", joins + digits + ")"},
+            {"(123", joins + ")"}, {"d<w", some}, {"1=2", some + digits}, {"(d<w)", joins}, {"(d<w", some + ")"},
+        };
+        for (String[] of : all) {
+            String got = Twins.standing(of[0], NoonGun::new, gun -> gun.rule());
+            Check.due("behind " + of[0], sorted(got), sorted(of[1]));
         }
     }
 
@@ -929,7 +912,7 @@ public final class EdgesOfTextsTest {
 
     private static NoonGun askedHouse(int what) {
         NoonGun gun = Twins.fullTown();
-        for (int house = 0; house < 8; house++) {
+        for (int house = 0; house < 7; house++) {
             gun.house(house, what);
         }
         return gun;
@@ -993,7 +976,7 @@ public final class EdgesOfTextsTest {
 
     private static NoonGun askedDeed(int what) {
         NoonGun gun = Twins.fullTown();
-        for (int deed = 0; deed < 8; deed++) {
+        for (int deed = 0; deed < 7; deed++) {
             gun.deed(deed, what);
         }
         return gun;
@@ -1147,5 +1130,16 @@ public final class EdgesOfTextsTest {
         Check.dueRow("the row stays", gun, 0, 1, 2, 3);
         Check.due("no undo of it", gun.undo(), -1);
         dueLengths(gun, 3, 8, 9, 9);
+    }
+
+    private static void promise11TheSameLengthsChangeNothing() {
+        Twins.Town rising = () -> Twins.lived(Check.town("00;11", "01a;12b;03c;14d;05a;16b;07c;18d"));
+        for (int kind = 0; kind <= 2; kind++) {
+            int k = kind;
+            Twins.refusedIn(rising, "kind " + k, 36, gun -> gun.sheet(k, 8, 1, 1));
+        }
+        Twins.Town ones = () -> Twins.lived(Check.town("00;11", "01a;11b;01c;11d"));
+        Twins.refusedIn(ones, "missing", -3, gun -> gun.sheet(3, 0, 0, 0));
+        Twins.refusedIn(ones, "none", 4, gun -> gun.sheet(2, 0, 7, 7));
     }
 }

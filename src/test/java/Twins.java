@@ -11,10 +11,19 @@ final class Twins {
         long make(NoonGun gun);
     }
 
-    static final int LOOKS = 10;
+    static final int LOOKS = 14;
 
     /** Towns that differ in all that can be empty or full. */
     static final Town[] TOWNS = {NoonGun::new, Twins::midTown, Twins::fullTown};
+
+    private static final Call[] QUESTIONS = {
+        NoonGun::order, NoonGun::clashes, NoonGun::span, gun -> gun.lane(0), gun -> gun.lane(3), gun -> gun.ahead(3),
+        NoonGun::quiet, NoonGun::lasts, NoonGun::fewest, NoonGun::longest, NoonGun::best, NoonGun::middle,
+        gun -> gun.holds(1), NoonGun::hands, gun -> gun.echo(1), NoonGun::together, NoonGun::fits, NoonGun::asks,
+        gun -> gun.menders(7), NoonGun::apart, gun -> gun.misfires(9, 4, 3), gun -> gun.misfires(2, 3, 5),
+        gun -> gun.forts(7, 20), gun -> Check.law(gun, "((((d))))*(w<m)-y"), gun -> gun.rests(9),
+        gun -> gun.years(5, 60),
+    };
 
     static final String SIXTY_SIGNS = "n1b2g34m256l19".repeat(4) + "n0n9";
 
@@ -61,6 +70,22 @@ final class Twins {
         }
         gun.hands();
         Check.text(gun, SIXTY_SIGNS + "01234567890123456789");
+        return gun;
+    }
+
+    /** A town in which some days went by, some is kept, heard and told, and can be undone. */
+    static NoonGun lived(NoonGun gun) {
+        gun.keep(0);
+        gun.hauls(7, 1);
+        gun.days(1);
+        gun.keep(1);
+        gun.hill(2, 6);
+        gun.days(2);
+        gun.keep(2);
+        gun.heard(0, 199);
+        gun.best();
+        gun.end(0);
+        Check.text(gun, "86420");
         return gun;
     }
 
@@ -126,11 +151,26 @@ final class Twins {
         return gun;
     }
 
-    private static NoonGun told(Town town, String text) {
+    /** A town with this text alone as THE TEXT. */
+    static NoonGun told(Town town, String text) {
         NoonGun gun = town.make();
         gun.end(0);
         Check.text(gun, text);
         return gun;
+    }
+
+    /**
+     * Which of all signs can stand behind a text, told by where it is at fault. A fault stands behind
+     * each of them, so that no text comes.
+     */
+    static String standing(String ahead, Town town, Call reader) {
+        StringBuilder standing = new StringBuilder();
+        for (char sign = 0; sign < 256; sign++) {
+            if (reader.make(told(town, ahead + sign + "!")) != -1 - ahead.length()) {
+                standing.append(sign);
+            }
+        }
+        return standing.toString();
     }
 
     private static String answer(Check.Call call) {
@@ -163,10 +203,22 @@ final class Twins {
                 seePast(gun, look, seen);
                 break;
             case 7:
-                seeKept(gun, seen);
-                break;
             case 8:
+            case 9:
+                seeKept(gun, look - 7, seen);
+                break;
+            case 10:
                 seeReports(gun, seen);
+                break;
+            case 11:
+                for (int i = 0; i < QUESTIONS.length; i++) {
+                    seeAnswer(gun, QUESTIONS[i], seen);
+                }
+                break;
+            case 12:
+                for (int i = QUESTIONS.length - 1; i >= 0; i--) {
+                    seeAnswer(gun, QUESTIONS[i], seen);
+                }
                 break;
             default:
                 seeText(gun, seen);
@@ -174,12 +226,13 @@ final class Twins {
         return seen.toString();
     }
 
+    /** The ROW comes first: to ask for counts might change it. */
     private static void seeCounts(NoonGun gun, boolean rowToo, StringBuilder seen) {
-        for (int what = 0; what <= 13; what++) {
-            seen.append(what == 12 && !rowToo ? "" : gun.count(what) + " ");
-        }
         if (rowToo) {
             seeRow(gun, seen);
+        }
+        for (int what = 0; what <= 13; what++) {
+            seen.append(what == 12 && !rowToo ? "" : gun.count(what) + " ");
         }
     }
 
@@ -225,6 +278,18 @@ final class Twins {
             seeHouses(gun, 3, 4, seen);
             gun.days(1);
         }
+        // Another rule comes as it would have come ahead.
+        seen.append(Check.rule(gun, "((((d))))-w*(x<y)+(m=3)"));
+        seeHouses(gun, 3, 4, seen);
+    }
+
+    private static void seeAnswer(NoonGun gun, Call question, StringBuilder seen) {
+        gun.end(0);
+        seen.append(question.make(gun)).append(": ");
+        int many = gun.count(12);
+        for (int i = 0; i < many; i++) {
+            seen.append(gun.row(i)).append(' ');
+        }
     }
 
     private static void seePast(NoonGun gun, int look, StringBuilder seen) {
@@ -244,9 +309,10 @@ final class Twins {
         }
     }
 
-    private static void seeKept(NoonGun gun, StringBuilder seen) {
-        for (int i = 0; i < 3; i++) {
-            seen.append(gun.again(i)).append(": ");
+    /** From each of them on: what is looked at ahead of one might change it. */
+    private static void seeKept(NoonGun gun, int first, StringBuilder seen) {
+        for (int i = first; i < first + 3; i++) {
+            seen.append(gun.again(i % 3)).append(": ");
             for (int what = 2; what <= 11; what++) {
                 seen.append(gun.count(what)).append(' ');
             }
