@@ -549,6 +549,15 @@ public final class EdgesOfQuestionsTest {
         Check.dueRow("9, 9", gun, 9, 9);
     }
 
+    private static void promise30TheEarliest() {
+        NoonGun gun = Check.town("34;34", "", "d");
+        Check.due("minute 0", gun.middle(), 0);
+        Check.dueRow("at the houses", gun, 3, 4);
+        Check.rule(gun, "0");
+        Check.due("minute 0 everywhere", gun.middle(), 0);
+        Check.dueRow("the least row", gun, 0, 0);
+    }
+
     private static void promise30OfLikeOnesTheLeastRow() {
         NoonGun gun = Check.town("00;02", "", "d");
         Check.due("one off", gun.middle(), 1);

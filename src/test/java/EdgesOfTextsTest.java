@@ -906,16 +906,14 @@ public final class EdgesOfTextsTest {
     private static void promise09ItChangesNothing() {
         for (int what = 0; what <= 5; what++) {
             int w = what;
-            Twins.unchanged("what " + what, Twins::fullTown, () -> askedHouse(w));
+            dueUnchanged("house, what " + w, gun -> gun.house(1, w));
         }
     }
 
-    private static NoonGun askedHouse(int what) {
-        NoonGun gun = Twins.fullTown();
-        for (int house = 0; house < 7; house++) {
-            gun.house(house, what);
-        }
-        return gun;
+    /** The full town asks its HOUSES itself when it is made, so the other one tells more. */
+    private static void dueUnchanged(String what, Twins.Call call) {
+        Twins.unchanged(what, Twins::midTown, () -> Twins.called(Twins::midTown, call));
+        Twins.unchanged(what, Twins::fullTown, () -> Twins.called(Twins::fullTown, call));
     }
 
     // ---- 10: deed
@@ -970,16 +968,8 @@ public final class EdgesOfTextsTest {
     private static void promise10ItChangesNothing() {
         for (int what = 0; what <= 4; what++) {
             int w = what;
-            Twins.unchanged("what " + what, Twins::fullTown, () -> askedDeed(w));
+            dueUnchanged("deed, what " + w, gun -> gun.deed(1, w));
         }
-    }
-
-    private static NoonGun askedDeed(int what) {
-        NoonGun gun = Twins.fullTown();
-        for (int deed = 0; deed < 7; deed++) {
-            gun.deed(deed, what);
-        }
-        return gun;
     }
 
     // ---- 11: sheet
