@@ -1098,9 +1098,7 @@ public final class NoonGun {
         int most = 0;
         Arrays.fill(reports.tally, 0);
         for (int i = 0; i < reports.weatherCount; i++) {
-            int minute = minuteBy(reports.weathers[i], house);
-            reports.tally[minute]++;
-            most = Math.max(most, reports.tally[minute]);
+            most = Math.max(most, reports.countMinute(minuteBy(reports.weathers[i], house)));
         }
         return most;
     }
@@ -1431,8 +1429,8 @@ public final class NoonGun {
             int top = 0;
             for (int i = 0; i < size; i++) {
                 int step = steps[i];
-                if (step < DOING) {
-                    values[top] = step < NAME ? step : things[step - NAME];
+                if (step < DOING && top < SIGNS) {
+                    values[top] = valueOf(step, things);
                     top++;
                 } else if (step == DOING + MINUS_AHEAD && top > 0) {
                     values[top - 1] = -values[top - 1];
@@ -1442,6 +1440,14 @@ public final class NoonGun {
                 }
             }
             return Math.max(0, Math.min(LATEST, values[0]));
+        }
+
+        /** Of a step that is a number or a name. */
+        private static int valueOf(int step, int[] things) {
+            if (step < NAME) {
+                return step;
+            }
+            return step - NAME < things.length ? things[step - NAME] : 0;
         }
 
         private static int reckon(int doing, int a, int b) {
@@ -1688,6 +1694,15 @@ public final class NoonGun {
             minutes[size] = minute;
             size++;
             return true;
+        }
+
+        /** How often this minute is in the tally, with this time. */
+        private int countMinute(int minute) {
+            if (minute < 0 || minute >= MINUTES) {
+                return 0;
+            }
+            tally[minute]++;
+            return tally[minute];
         }
     }
 
